@@ -198,11 +198,11 @@ public final class FootBook {
         }
         int all = (1 << board.wishCount) - 1;
         for (int i = 0; i < SETS.length; i++) {
-            if ((SETS[i] & ~all) == 0 && !isPossible(SETS[i])) {
+            if ((SETS[i] & ~all) == 0 && SETS[i] != all && !isPossible(SETS[i])) {
                 return SETS[i];
             }
         }
-        return 0;
+        return all;
     }
 
     public int many() {
@@ -437,6 +437,16 @@ public final class FootBook {
             return useCount - 1;
         }
 
+        int countOfKind(int kind) {
+            int count = 0;
+            for (int unit = 0; unit < unitCount; unit++) {
+                if (kinds[unit] == kind) {
+                    count++;
+                }
+            }
+            return count;
+        }
+
         /** The FEET of a VOLTAGE as bits; 0 is whatever VOLTAGE. */
         int feetOfVolt(int volt) {
             int bits = 0;
@@ -484,6 +494,17 @@ public final class FootBook {
             }
             wishCount++;
             return wish;
+        }
+
+        /** How many of a set of WISHES are of a KIND. */
+        int countOfKind(int kind, int set) {
+            int count = 0;
+            for (int wish = 0; wish < wishCount; wish++) {
+                if ((set >> wish & 1) != 0 && kinds[wish] == kind) {
+                    count++;
+                }
+            }
+            return count;
         }
 
         /** The FEET, as bits, on which a UNIT may do a ROLE for a WISH. */
@@ -561,7 +582,7 @@ public final class FootBook {
         private int footCount;
         /** The ROLES of each WISH that is looked at; 0 where one is left out. */
         private final int[] roles = new int[MOST_WISHES];
-        /** FEET as bits by WISH, UNIT, ROLE. */
+        /** FEET as bits by WISH, UNIT, ROLE; as steps and bounds only set for a WISH that is looked at. */
         private final int[] open = new int[MOST_WISHES * MOST_UNITS * ROLES];
         /** Steps by WISH, FOOT. */
         private final int[] steps = new int[MOST_WISHES * MOST_FEET];
@@ -569,6 +590,9 @@ public final class FootBook {
         private final int[] rolesFrom = new int[MOST_WISHES * MOST_UNITS * (ROLES + 1)];
         /** By WISH: no less than this do that WISH and the later ones weigh. */
         private final int[] wishesFrom = new int[MOST_WISHES + 1];
+        /** The last ROLE that is given, as 4 times its WISH and the ROLE; NONE without WISHES. */
+        private int lastSlot;
+        private boolean enoughUnits;
         private int unitsTaken;
         private int feetTaken;
         private int least;
@@ -580,16 +604,29 @@ public final class FootBook {
             wishCount = board.wishCount;
             unitCount = chip.unitCount;
             footCount = chip.footCount;
+            lastSlot = NONE;
+            enoughUnits = true;
             kept.clear();
             for (int wish = 0; wish < wishCount; wish++) {
-                roles[wish] = (set >> wish & 1) != 0 ? board.roles[wish] : 0;
-                for (int foot = 0; foot < footCount; foot++) {
-                    steps[wish * MOST_FEET + foot] = chip.steps(board.places[wish], foot);
+                boolean looked = (set >> wish & 1) != 0;
+                roles[wish] = looked ? board.roles[wish] : 0;
+                if (looked) {
+                    aimAt(chip, board, wish);
+                    enoughUnits &= board.countOfKind(board.kinds[wish], set) <= chip.countOfKind(board.kinds[wish]);
+                }
+            }
+        }
+
+        private void aimAt(Chip chip, Board board, int wish) {
+            for (int foot = 0; foot < footCount; foot++) {
+                steps[wish * MOST_FEET + foot] = chip.steps(board.places[wish], foot);
+            }
+            for (int role = 0; role < ROLES; role++) {
+                if (board.wants(wish, role)) {
+                    lastSlot = wish * ROLES + role;
                 }
                 for (int unit = 0; unit < unitCount; unit++) {
-                    for (int role = 0; role < ROLES; role++) {
-                        open[(wish * MOST_UNITS + unit) * ROLES + role] = board.openFeet(chip, wish, unit, role);
-                    }
+                    open[(wish * MOST_UNITS + unit) * ROLES + role] = board.openFeet(chip, wish, unit, role);
                 }
             }
         }
@@ -602,20 +639,18 @@ public final class FootBook {
         /** The least weight (NONE: there is no GIVING); what weighs it stands in found. */
         int findLeast() {
             countLimit = 0;
-            begin();
             found.clear();
-            giveUnit(0, 0);
+            walk();
             return found.holds ? least : NONE;
         }
 
         int countUpTo(int limit) {
             countLimit = limit;
-            begin();
-            giveUnit(0, 0);
-            return counted;
+            walk();
+            return Math.min(counted, limit);
         }
 
-        private void begin() {
+        private void walk() {
             counted = 0;
             least = TOO_MUCH;
             unitsTaken = 0;
@@ -623,18 +658,25 @@ public final class FootBook {
             making.clear();
             making.holds = true;
             making.wishCount = wishCount;
-            setBounds();
+            if (enoughUnits) {
+                setBounds();
+                giveUnit(0, 0);
+            }
         }
 
         private void setBounds() {
             wishesFrom[wishCount] = 0;
             for (int wish = wishCount - 1; wish >= 0; wish--) {
-                int lightest = roles[wish] == 0 ? 0 : TOO_MUCH;
-                for (int unit = 0; unit < unitCount; unit++) {
-                    lightest = Math.min(lightest, setBoundsOfUnit(wish, unit));
-                }
-                wishesFrom[wish] = wishesFrom[wish + 1] + lightest;
+                wishesFrom[wish] = wishesFrom[wish + 1] + (roles[wish] == 0 ? 0 : setBoundsOfWish(wish));
             }
+        }
+
+        private int setBoundsOfWish(int wish) {
+            int lightest = TOO_MUCH;
+            for (int unit = 0; unit < unitCount; unit++) {
+                lightest = Math.min(lightest, setBoundsOfUnit(wish, unit));
+            }
+            return lightest;
         }
 
         private int setBoundsOfUnit(int wish, int unit) {
@@ -690,8 +732,9 @@ public final class FootBook {
             }
         }
 
-        private void giveFoot(int wish, int role, int weight) {
+        private void giveFoot(int wish, int from, int weight) {
             int unit = making.units[wish];
+            int role = wishedFrom(wish, from);
             int bound = rolesFrom[(wish * MOST_UNITS + unit) * (ROLES + 1) + role] + wishesFrom[wish + 1];
             if (weight + bound >= least) {
                 return;
@@ -700,19 +743,29 @@ public final class FootBook {
                 giveUnit(wish + 1, weight);
                 return;
             }
-            if ((roles[wish] >> role & 1) == 0) {
-                giveFoot(wish, role + 1, weight);
+            int slot = wish * ROLES + role;
+            int bits = open[(wish * MOST_UNITS + unit) * ROLES + role] & ~feetTaken;
+            if (countLimit > 0 && slot == lastSlot) {
+                counted += Integer.bitCount(bits);
                 return;
             }
-            int bits = open[(wish * MOST_UNITS + unit) * ROLES + role] & ~feetTaken;
             for (int foot = 0; foot < footCount && !isOver(); foot++) {
                 if ((bits >> foot & 1) != 0) {
-                    making.feet[wish * ROLES + role] = foot;
+                    making.feet[slot] = foot;
                     feetTaken |= 1 << foot;
                     giveFoot(wish, role + 1, weight + weigh(wish, unit, role, foot));
                     feetTaken &= ~(1 << foot);
                 }
             }
+        }
+
+        /** The first ROLE from this one on that the WISH has; 4 after the last. */
+        private int wishedFrom(int wish, int from) {
+            int role = from;
+            while (role < ROLES && (roles[wish] >> role & 1) == 0) {
+                role++;
+            }
+            return role;
         }
 
         /** A GIVING is whole. While GIVINGS are counted none is kept, so that no bound leaves one out. */

@@ -9,8 +9,9 @@ import java.util.Random;
  */
 public final class FootBookAgainstPlain {
     private static final int NONE = -6, UNKNOWN = -1, OUTSIDE = -2, STATE = -3, FULL = -4, NO = -5;
-    private static final int RUNS = 1500;
+    private static final int RUNS = 1000;
     private static final int CALLS = 500;
+    private static final int FULL_RUNS = 40;
 
     private static int wrong = 0;
 
@@ -18,6 +19,9 @@ public final class FootBookAgainstPlain {
         long asked = 0;
         for (int run = 0; run < RUNS && wrong < 20; run++) {
             asked += new Run(run).go();
+        }
+        for (int run = 0; run < FULL_RUNS && wrong < 20; run++) {
+            asked += new Run(RUNS + run).goFull(1 + run % 4);
         }
         System.out.println(asked + " answers asked, " + wrong + " not as due");
         if (wrong != 0) {
@@ -508,27 +512,77 @@ public final class FootBookAgainstPlain {
             random = new Random(4711L + number);
             kindsUsed = 1 + random.nextInt(3);
             feetUsed = 4 + random.nextInt(13);
-            rolesUsed = number % 3 == 0 ? new int[] {1, 2, 3} : new int[] {1, 3, 5, 7, 8, 10, 15};
+            rolesUsed = number % 2 == 0 ? new int[] {1, 2, 3} : new int[] {1, 2, 3, 4, 5, 7, 8, 10, 15};
         }
 
         int go() {
             due("feet", new int[] {feetUsed}, book.feet(feetUsed), plain.feet(feetUsed));
-            int units = 2 + random.nextInt(5);
+            int units = 4 + random.nextInt(3);
             for (int i = 0; i < units; i++) {
                 mutate(2);
             }
-            int uses = 5 + random.nextInt(26);
+            int uses = 12 + random.nextInt(30);
             for (int i = 0; i < uses; i++) {
                 mutate(3);
             }
             while (calls < CALLS && wrong < 20) {
                 mutate(random.nextInt(12));
+                leaveTheImpossible();
                 int questions = random.nextInt(8);
                 for (int i = 0; i < questions; i++) {
                     ask(random.nextInt(15));
                 }
             }
             return calls;
+        }
+
+        /** A book as full as can be, of one KIND and so many ROLES a WISH: there are the most GIVINGS. */
+        int goFull(int roles) {
+            due("feet", new int[] {16}, book.feet(16), plain.feet(16));
+            int units = 4 + random.nextInt(3);
+            for (int i = 0; i < units; i++) {
+                due("unit", new int[] {0}, book.unit(0), plain.unit(0));
+            }
+            for (int i = 0; i < 500 && plain.uses.size() < 30; i++) {
+                int foot = random.nextInt(16);
+                int unit = i % units;
+                int role = i / units % roles;
+                due("use", new int[] {foot, unit, role}, book.use(foot, unit, role), plain.use(foot, unit, role));
+            }
+            int place = random.nextInt(16);
+            for (int wish = 0; wish < 4; wish++) {
+                int bits = (1 << roles) - 1;
+                due("wish", new int[] {0, bits, 0, place}, book.wish(0, bits, 0, place), plain.wish(0, bits, 0, place));
+                place = random.nextInt(16);
+                askAll();
+            }
+            due("hold", new int[] {}, book.hold(), plain.hold());
+            for (int role = 0; role < roles; role++) {
+                int foot = footThatCan(role, role);
+                due("fix", new int[] {role, role, foot}, book.fix(role, role, foot), plain.fix(role, role, foot));
+                due("change", new int[] {}, book.change(), plain.change());
+            }
+            askAll();
+            return calls;
+        }
+
+        private void askAll() {
+            due("best", new int[] {}, book.best(), plain.best());
+            due("crossings", new int[] {}, book.crossings(), plain.crossings());
+            due("blame", new int[] {}, book.blame(), plain.blame());
+            due("many", new int[] {}, book.many(), plain.many());
+            due("stands", new int[] {}, book.stands(), plain.stands());
+            for (int i = 0; i < 17; i++) {
+                due("held", new int[] {i / 4, i % 4}, book.held(i / 4, i % 4), plain.held(i / 4, i % 4));
+                due("setting", new int[] {i - 1}, book.setting(i - 1), plain.setting(i - 1));
+            }
+        }
+
+        /** A book without a GIVING stays so for long; mostly its latest WISH goes, so that there is something to ask. */
+        private void leaveTheImpossible() {
+            while (random.nextInt(3) > 0 && plain.best() == NONE) {
+                due("drop", new int[] {}, book.drop(), plain.drop());
+            }
         }
 
         private void due(String call, int[] with, int got, int want) {
@@ -554,6 +608,17 @@ public final class FootBookAgainstPlain {
 
         private int foot() {
             return about(0, plain.volts.length);
+        }
+
+        /** A FOOT that can do the ROLE of some UNIT of the WISH's KIND, where there is one. */
+        private int footThatCan(int wish, int role) {
+            for (int i = 0; i < 20 && !plain.noWish(wish) && !plain.uses.isEmpty(); i++) {
+                int[] use = plain.uses.get(random.nextInt(plain.uses.size()));
+                if (use[2] == role && plain.kinds.get(use[1]) == plain.wishes.get(wish).kind) {
+                    return use[0];
+                }
+            }
+            return foot();
         }
 
         private int wishNumber() {
@@ -611,7 +676,7 @@ public final class FootBookAgainstPlain {
                 case 7:
                     a = wishNumber();
                     b = about(0, 4);
-                    c = random.nextInt(3) == 0 ? -1 : foot();
+                    c = random.nextInt(3) == 0 ? -1 : random.nextInt(4) == 0 ? foot() : footThatCan(a, b);
                     due("fix", new int[] {a, b, c}, book.fix(a, b, c), plain.fix(a, b, c));
                     break;
                 case 8:
