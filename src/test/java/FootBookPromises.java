@@ -183,6 +183,10 @@ public final class FootBookPromises {
         due("feet: use(0, 0, 0), new again", x.use(0, 0, 0), 0);
         due("feet: wish(0, 2, 0, 0)", x.wish(0, 2, 0, 0), 0);
         due("feet: no use of role 1 is left", x.best(), NONE);
+        x = smallOne();
+        due("feet: best() ahead of it", x.best(), 1);
+        x.feet(8);
+        due("feet: best() right after it", x.best(), 0);
         x.feet(16);
         for (int foot = 0; foot < 16; foot++) {
             due("feet: volt(" + foot + ", 2) of 16", x.volt(foot, 2), 1);
@@ -536,7 +540,10 @@ public final class FootBookPromises {
         due("crossings: 0-4, 5-7, outside", crossingsOf(0, 4, 5, 7), 0);
         due("crossings: 0-4, 4-6, one end alike", crossingsOf(0, 4, 4, 6), 0);
         due("crossings: 4-0, 0-6, one end alike", crossingsOf(4, 0, 0, 6), 0);
+        due("crossings: 0-4, 4-2, one end alike, the other within", crossingsOf(0, 4, 4, 2), 0);
+        due("crossings: 4-0, 2-4, one end alike, the other within", crossingsOf(4, 0, 2, 4), 0);
         due("crossings: 0-4, 0-2, places alike", crossingsOf(0, 4, 0, 2), 0);
+        due("crossings: 4-0, 4-2, places alike", crossingsOf(4, 0, 4, 2), 0);
         due("crossings: 0-4, 2-2, no way at all", crossingsOf(0, 4, 2, 2), 0);
         due("crossings: 3-3, 0-6", crossingsOf(3, 3, 0, 6), 0);
         due("crossings: 0-7, 6-1", crossingsOf(0, 7, 6, 1), 0);
@@ -564,6 +571,10 @@ public final class FootBookPromises {
         due("blame(): one alone is fewer", x.blame(), 4);
         x.wish(3, 1, 0, 0);
         due("blame(): of two alone the lesser", x.blame(), 4);
+        x = smallOne();
+        x.wish(2, 1, 0, 0);
+        x.fix(0, 0, 7);
+        due("blame(): wish 0 alone ahead of wish 1 alone", x.blame(), 1);
         blameOfPairs();
         x = oneFootEach(2);
         x.wish(0, 1, 0, 0);
