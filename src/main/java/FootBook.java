@@ -638,19 +638,24 @@ public final class FootBook {
 
         /** The least weight (NONE: there is no GIVING); what weighs it stands in found. */
         int findLeast() {
-            countLimit = 0;
+            begin(0);
             found.clear();
-            walk();
+            if (enoughUnits) {
+                giveUnit(0, 0);
+            }
             return found.holds ? least : NONE;
         }
 
         int countUpTo(int limit) {
-            countLimit = limit;
-            walk();
+            begin(limit);
+            if (enoughUnits) {
+                giveUnit(0, 0);
+            }
             return Math.min(counted, limit);
         }
 
-        private void walk() {
+        private void begin(int limit) {
+            countLimit = limit;
             counted = 0;
             least = TOO_MUCH;
             unitsTaken = 0;
@@ -658,34 +663,23 @@ public final class FootBook {
             making.clear();
             making.holds = true;
             making.wishCount = wishCount;
-            if (enoughUnits) {
-                setBounds();
-                giveUnit(0, 0);
-            }
+            setBounds();
         }
 
         private void setBounds() {
             wishesFrom[wishCount] = 0;
             for (int wish = wishCount - 1; wish >= 0; wish--) {
-                wishesFrom[wish] = wishesFrom[wish + 1] + (roles[wish] == 0 ? 0 : setBoundsOfWish(wish));
+                int lightest = roles[wish] == 0 ? 0 : TOO_MUCH;
+                for (int unit = 0; unit < unitCount && roles[wish] != 0; unit++) {
+                    int at = (wish * MOST_UNITS + unit) * (ROLES + 1);
+                    rolesFrom[at + ROLES] = 0;
+                    for (int role = ROLES - 1; role >= 0; role--) {
+                        rolesFrom[at + role] = rolesFrom[at + role + 1] + lightestFoot(wish, unit, role);
+                    }
+                    lightest = Math.min(lightest, rolesFrom[at]);
+                }
+                wishesFrom[wish] = wishesFrom[wish + 1] + lightest;
             }
-        }
-
-        private int setBoundsOfWish(int wish) {
-            int lightest = TOO_MUCH;
-            for (int unit = 0; unit < unitCount; unit++) {
-                lightest = Math.min(lightest, setBoundsOfUnit(wish, unit));
-            }
-            return lightest;
-        }
-
-        private int setBoundsOfUnit(int wish, int unit) {
-            int at = (wish * MOST_UNITS + unit) * (ROLES + 1);
-            rolesFrom[at + ROLES] = 0;
-            for (int role = ROLES - 1; role >= 0; role--) {
-                rolesFrom[at + role] = rolesFrom[at + role + 1] + lightestFoot(wish, unit, role);
-            }
-            return rolesFrom[at];
         }
 
         private int lightestFoot(int wish, int unit, int role) {
@@ -705,7 +699,7 @@ public final class FootBook {
         private int weigh(int wish, int unit, int role, int foot) {
             int cost = steps[wish * MOST_FEET + foot];
             boolean moves = wish < kept.wishCount
-                    && (kept.unitOf(wish) != unit || kept.footOf(wish, role) != foot);
+                    && (kept.units[wish] != unit || kept.feet[wish * ROLES + role] != foot);
             return moves ? cost + MOVE_WEIGHT : cost;
         }
 
