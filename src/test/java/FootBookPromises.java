@@ -1,14 +1,7 @@
 import java.util.function.Consumer;
-import java.util.function.ToIntFunction;
 
-/** For each promise of the document: ordinary calls, the edges that it names, and calls that are refused. */
-public final class FootBookPromises {
-    private static final int NONE = -6, UNKNOWN = -1, OUTSIDE = -2, STATE = -3, FULL = -4, NO = -5;
-    private static final int LOWEST = Integer.MIN_VALUE, HIGHEST = Integer.MAX_VALUE;
-
-    private static int wrong = 0;
-    private static int asked = 0;
-
+/** The sentences of 'Promise 1' to 'Promise 23': each has a test of its own, which bears its words. */
+public final class FootBookPromises extends Check {
     public static void main(String[] args) {
         promise1NewObject();
         promise2Feet();
@@ -22,7 +15,6 @@ public final class FootBookPromises {
         promise10Fix();
         promise11Drop();
         promise12Best();
-        promise12BestIsTheFirst();
         promise13Given();
         promise14Crossings();
         promise15Blame();
@@ -34,216 +26,191 @@ public final class FootBookPromises {
         promise21Setting();
         promise22Stands();
         promise23Told();
-        System.out.println(asked + " answers asked, " + wrong + " not as due");
-        if (wrong != 0) {
-            System.exit(1);
-        }
+        end();
     }
 
-    private static void due(String what, int got, int want) {
-        asked++;
-        if (got != want) {
-            wrong++;
-            System.out.println(what + " answered " + got + ", due is " + want);
+    /** Nothing but the told number of FEET of VOLTAGE 1. */
+    private static void isNew(FootBook x, int feet) {
+        due(x, feet, "told", 0);
+        for (int what = 1; what <= 4; what++) {
+            due(x, 0, "told", what);
         }
-    }
-
-    /** On a new object that was readied: the call is refused so, and all that can be read stays as it was. */
-    private static void refused(String what, Consumer<FootBook> ready, ToIntFunction<FootBook> call, int want) {
-        FootBook untouched = new FootBook();
-        ready.accept(untouched);
-        FootBook touched = new FootBook();
-        ready.accept(touched);
-        due(what, call.applyAsInt(touched), want);
-        asked++;
-        String before = allThatCanBeRead(untouched);
-        String after = allThatCanBeRead(touched);
-        if (!before.equals(after)) {
-            wrong++;
-            System.out.println(what + " was refused, but changed\n  " + before + "\nto\n  " + after);
-        }
-    }
-
-    private static String allThatCanBeRead(FootBook x) {
-        StringBuilder all = new StringBuilder();
-        for (int what = 0; what < 5; what++) {
-            all.append(x.told(what)).append(' ');
-        }
-        for (int unit = 0; unit < x.told(1); unit++) {
-            all.append("k").append(x.kind(unit)).append(' ');
-        }
-        for (int use = 0; use < x.told(2); use++) {
-            all.append("u").append(x.about(use, 0)).append(x.about(use, 1)).append(x.about(use, 2)).append(' ');
-        }
-        for (int wish = 0; wish < x.told(3); wish++) {
-            for (int what = 0; what < 14; what++) {
-                all.append("w").append(x.wished(wish, what)).append(' ');
-            }
-            for (int role = -1; role < 4; role++) {
-                all.append("g").append(x.given(wish, role)).append(' ');
-            }
-        }
+        due(x, UNKNOWN, "kind", 0);
+        due(x, UNKNOWN, "about", 0, 0);
+        due(x, UNKNOWN, "wished", 0, 0);
+        due(x, UNKNOWN, "drop");
         for (int wish = 0; wish < 4; wish++) {
             for (int role = -1; role < 4; role++) {
-                all.append("h").append(x.held(wish, role)).append(' ');
+                due(x, NONE, "held", wish, role);
             }
         }
-        all.append(x.best()).append(' ').append(x.many()).append(' ').append(x.stands()).append(" v");
-        for (int foot = 0; foot < x.told(0); foot++) {
-            all.append(x.volt(foot, 1));
+        due(x, 0, "setting", -1);
+        due(x, NONE, "setting", 0);
+        due(x, STATE, "change");
+        due(x, 0, "stands");
+        due(x, 0, "best");
+        due(x, UNKNOWN, "volt", feet, 1);
+        for (int foot = 0; foot < feet; foot++) {
+            due(x, 1, "volt", foot, 2);
         }
-        return all.toString();
-    }
-
-    /** 8 FEET; UNIT 0 of KIND 0 on FEET 0, 1 and 2, UNIT 1 of KIND 1 on 3 and 4; one WISH, held. */
-    private static void small(FootBook x) {
-        x.volt(2, 3);
-        x.unit(0);
-        x.unit(1);
-        x.use(0, 0, 0);
-        x.use(1, 0, 0);
-        x.use(2, 0, 1);
-        x.use(3, 1, 0);
-        x.use(4, 1, 2);
-        x.wish(0, 3, 0, 1);
-        x.hold();
-    }
-
-    private static FootBook smallOne() {
-        FootBook x = new FootBook();
-        small(x);
-        return x;
-    }
-
-    private static void nothing(FootBook x) {
-    }
-
-    private static void fourWishes(FootBook x) {
-        x.unit(0);
-        x.use(0, 0, 0);
-        for (int i = 0; i < 4; i++) {
-            x.wish(i, 1 + i, i, i);
-        }
-    }
-
-    /** UNITS 0 to 5 of KIND 0, each of which can do ROLE 0 on one FOOT, its own number. */
-    private static FootBook oneFootEach(int units) {
-        FootBook x = new FootBook();
-        for (int unit = 0; unit < units; unit++) {
-            x.unit(0);
-            x.use(unit, unit, 0);
-        }
-        return x;
     }
 
     private static void promise1NewObject() {
-        FootBook x = new FootBook();
-        due("new: told(0)", x.told(0), 8);
-        for (int what = 1; what < 5; what++) {
-            due("new: told(" + what + ")", x.told(what), 0);
-        }
-        for (int foot = 0; foot < 8; foot++) {
-            due("new: volt(" + foot + ", 1)", x.volt(foot, 1), 1);
-        }
-        due("new: volt(8, 1)", x.volt(8, 1), UNKNOWN);
-        due("new: kind(0)", x.kind(0), UNKNOWN);
-        due("new: about(0, 0)", x.about(0, 0), UNKNOWN);
-        due("new: wished(0, 0)", x.wished(0, 0), UNKNOWN);
-        due("new: held(0, -1)", x.held(0, -1), NONE);
-        due("new: held(0, 0)", x.held(0, 0), NONE);
-        due("new: setting(-1)", x.setting(-1), 0);
-        due("new: change()", x.change(), STATE);
-        due("new: stands()", x.stands(), 0);
-        FootBook other = new FootBook();
+        sentence("1 FootBook: 8 FEET of VOLTAGE 1; no UNITS, USES, WISHES; THE HAND holds nothing",
+                () -> isNew(new FootBook(), 8));
+        sentence("1 FootBook: each object is a book of its own", FootBookPromises::objectsApart);
+    }
+
+    private static void objectsApart() {
+        FootBook x = readied(Check::small);
+        String before = allThatCanBeRead(x);
+        FootBook other = readied(Check::full);
         other.feet(5);
-        due("another object's feet stay its own", x.told(0), 8);
+        same("another object was used", before, allThatCanBeRead(x));
+        isNew(new FootBook(), 8);
     }
 
     private static void promise2Feet() {
-        FootBook x = smallOne();
-        due("feet(16)", x.feet(16), 8);
-        due("feet(4)", x.feet(4), 16);
-        due("feet(4) again", x.feet(4), 4);
-        due("feet: told(0)", x.told(0), 4);
-        x = smallOne();
-        x.volt(7, 4);
-        due("feet(8), as many as before", x.feet(8), 8);
-        for (int what = 1; what < 5; what++) {
-            due("feet: told(" + what + ")", x.told(what), 0);
+        sentence("2 feet: FEET anew (VOLTAGES 1; no UNITS, USES, WISHES, THE HAND holds nothing)",
+                FootBookPromises::feetAnew);
+        sentence("2 feet: nothing of what was is left", FootBookPromises::nothingIsLeft);
+        sentence("2 feet: how many there were", FootBookPromises::howManyFeetThereWere);
+        sentence("2 feet: OUTSIDE", () -> bounds(Check::full, OUTSIDE, 4, 16, "feet", 0, 8));
+        sentence("2 feet: OUTSIDE of a new book", () -> bounds(Check::nothing, OUTSIDE, 4, 16, "feet", 0, 8));
+    }
+
+    private static void feetAnew() {
+        for (int n = 4; n <= 16; n++) {
+            FootBook x = readied(Check::full);
+            due(x, 16, "feet", n);
+            isNew(x, n);
+            x = readied(Check::small);
+            due(x, 8, "feet", n);
+            isNew(x, n);
         }
-        due("feet: volt(2, 1)", x.volt(2, 1), 1);
-        due("feet: volt(7, 1)", x.volt(7, 1), 1);
-        due("feet: held(0, -1)", x.held(0, -1), NONE);
-        due("feet: held(0, 0)", x.held(0, 0), NONE);
-        due("feet: setting(-1)", x.setting(-1), 0);
-        due("feet: stands()", x.stands(), 0);
-        due("feet: change()", x.change(), STATE);
-        due("feet: best()", x.best(), 0);
-        due("feet: unit(0)", x.unit(0), 0);
-        due("feet: use(0, 0, 0), new again", x.use(0, 0, 0), 0);
-        due("feet: wish(0, 2, 0, 0)", x.wish(0, 2, 0, 0), 0);
-        due("feet: no use of role 1 is left", x.best(), NONE);
-        x = smallOne();
-        due("feet: best() ahead of it", x.best(), 1);
+    }
+
+    private static void nothingIsLeft() {
+        FootBook x = readied(Check::small);
+        due(x, 1, "best");
         x.feet(8);
-        due("feet: best() right after it", x.best(), 0);
-        x.feet(16);
-        for (int foot = 0; foot < 16; foot++) {
-            due("feet: volt(" + foot + ", 2) of 16", x.volt(foot, 2), 1);
+        due(x, 0, "best");
+        due(x, 1, "many");
+        due(x, 0, "unit", 0);
+        due(x, 0, "wish", 0, 1, 0, 0);
+        due(x, NONE, "best");
+        due(x, 0, "use", 0, 0, 0);
+        due(x, 0, "best");
+        x.fix(0, 0, 7);
+        x.feet(8);
+        due(x, 0, "wish", 0, 1, 0, 0);
+        due(x, NONE, "wished", 0, 10);
+    }
+
+    private static void howManyFeetThereWere() {
+        FootBook x = new FootBook();
+        int before = 8;
+        for (int n : new int[] {16, 4, 4, 5, 15, 8, 8}) {
+            due(x, before, "feet", n);
+            due(x, n, "told", 0);
+            before = n;
         }
-        x.feet(4);
-        x.feet(16);
-        due("feet: volt(15, 1) anew", x.volt(15, 1), 1);
-        for (int n : new int[] {3, 17, 0, -1, -8, LOWEST, HIGHEST}) {
-            refused("feet(" + n + ")", FootBookPromises::small, b -> b.feet(n), OUTSIDE);
-        }
+        due(x, OUTSIDE, "feet", 3);
+        due(x, 8, "feet", 9);
     }
 
     private static void promise3Volt() {
+        sentence("3 volt: which it was", FootBookPromises::whichVoltageItWas);
+        sentence("3 volt: of a FOOT", FootBookPromises::voltageOfOneFoot);
+        sentence("3 volt: from now on", FootBookPromises::voltageFromNowOn);
+        sentence("3 volt: UNKNOWN", () -> bounds(Check::small, UNKNOWN, 0, 7, "volt", 0, 0, 1));
+        sentence("3 volt: UNKNOWN, of 16", () -> bounds(Check::full, UNKNOWN, 0, 15, "volt", 0, 0, 1));
+        sentence("3 volt: OUTSIDE", () -> bounds(Check::small, OUTSIDE, 1, 4, "volt", 1, 7, 1));
+    }
+
+    private static void whichVoltageItWas() {
         FootBook x = new FootBook();
-        due("volt(0, 4)", x.volt(0, 4), 1);
-        due("volt(0, 1)", x.volt(0, 1), 4);
-        due("volt(7, 2)", x.volt(7, 2), 1);
-        due("volt(7, 3)", x.volt(7, 3), 2);
-        due("volt(7, 3) again", x.volt(7, 3), 3);
-        for (int foot : new int[] {8, -1, 15, 16, LOWEST, HIGHEST}) {
-            refused("volt(" + foot + ", 1)", FootBookPromises::small, b -> b.volt(foot, 1), UNKNOWN);
-            refused("volt(" + foot + ", 5)", FootBookPromises::small, b -> b.volt(foot, 5), UNKNOWN);
-        }
-        for (int v : new int[] {0, 5, -1, LOWEST, HIGHEST}) {
-            refused("volt(2, " + v + ")", FootBookPromises::small, b -> b.volt(2, v), OUTSIDE);
+        int before = 1;
+        for (int v : new int[] {4, 1, 2, 3, 3, 4, 4, 1}) {
+            due(x, before, "volt", 7, v);
+            before = v;
         }
     }
 
-    private static void sixUnits(FootBook x) {
-        for (int unit = 0; unit < 6; unit++) {
-            x.unit(unit % 4);
+    private static void voltageOfOneFoot() {
+        FootBook x = readied(b -> b.feet(16));
+        for (int foot = 0; foot < 16; foot++) {
+            due(x, 1, "volt", foot, 1 + foot % 4);
         }
+        for (int foot = 0; foot < 16; foot++) {
+            due(x, 1 + foot % 4, "volt", foot, 1);
+        }
+    }
+
+    private static void voltageFromNowOn() {
+        FootBook x = new FootBook();
+        x.unit(0);
+        x.use(3, 0, 0);
+        x.wish(0, 1, 2, 0);
+        due(x, NONE, "best");
+        due(x, 1, "volt", 3, 2);
+        due(x, 3, "best");
+        due(x, 2, "volt", 3, 4);
+        due(x, NONE, "best");
     }
 
     private static void promise4Unit() {
+        sentence("4 unit: its number", FootBookPromises::numberOfAUnit);
+        sentence("4 unit: OUTSIDE", () -> bounds(Check::small, OUTSIDE, 0, 3, "unit", 0, 0));
+        sentence("4 unit: FULL", FootBookPromises::unitIsFull);
+    }
+
+    private static void numberOfAUnit() {
         FootBook x = new FootBook();
         for (int unit = 0; unit < 6; unit++) {
-            due("unit(" + unit % 4 + ")", x.unit(unit % 4), unit);
-        }
-        due("unit: told(1)", x.told(1), 6);
-        refused("unit(0) as the seventh", FootBookPromises::sixUnits, b -> b.unit(0), FULL);
-        refused("unit(4) as the seventh", FootBookPromises::sixUnits, b -> b.unit(4), OUTSIDE);
-        for (int kind : new int[] {-1, 4, LOWEST, HIGHEST}) {
-            refused("unit(" + kind + ")", FootBookPromises::small, b -> b.unit(kind), OUTSIDE);
+            due(x, unit, "unit", 3 - unit % 4);
+            due(x, unit + 1, "told", 1);
         }
     }
 
+    private static void unitIsFull() {
+        for (int kind = 0; kind < 4; kind++) {
+            refused(Check::sixUnits, FULL, "unit", kind);
+            refused(Check::full, FULL, "unit", kind);
+        }
+        taken(b -> {
+            for (int unit = 0; unit < 5; unit++) {
+                b.unit(0);
+            }
+        }, "unit", 0);
+    }
+
     private static void promise5Kind() {
+        sentence("5 kind: KIND of a UNIT", FootBookPromises::kindOfAUnit);
+        sentence("5 kind: UNKNOWN", () -> bounds(Check::small, UNKNOWN, 0, 1, "kind", 0, 0));
+        sentence("5 kind: UNKNOWN without UNITS", () -> bounds(Check::nothing, UNKNOWN, 0, -1, "kind", 0, 0));
+        sentence("5 kind: UNKNOWN with all", () -> bounds(Check::sixUnits, UNKNOWN, 0, 5, "kind", 0, 0));
+    }
+
+    private static void kindOfAUnit() {
         FootBook x = new FootBook();
-        sixUnits(x);
+        int[] kinds = {3, 0, 2, 1, 1, 3};
+        for (int kind : kinds) {
+            x.unit(kind);
+        }
         for (int unit = 0; unit < 6; unit++) {
-            due("kind(" + unit + ")", x.kind(unit), unit % 4);
+            due(x, kinds[unit], "kind", unit);
         }
-        for (int unit : new int[] {-1, 2, 5, 6, LOWEST, HIGHEST}) {
-            refused("kind(" + unit + ")", FootBookPromises::small, b -> b.kind(unit), UNKNOWN);
-        }
-        refused("kind(6) of six", FootBookPromises::sixUnits, b -> b.kind(6), UNKNOWN);
+    }
+
+    private static void promise6Use() {
+        sentence("6 use: its number", FootBookPromises::numberOfAUse);
+        sentence("6 use: from now on", FootBookPromises::useFromNowOn);
+        sentence("6 use: UNKNOWN (FOOT)", () -> bounds(Check::small, UNKNOWN, 0, 7, "use", 0, 0, 1, 3));
+        sentence("6 use: UNKNOWN (UNIT)", () -> bounds(Check::small, UNKNOWN, 0, 1, "use", 1, 0, 0, 3));
+        sentence("6 use: OUTSIDE: ROLE", () -> bounds(Check::small, OUTSIDE, 0, 3, "use", 2, 7, 1, 0));
+        sentence("6 use: FULL", FootBookPromises::useIsFull);
+        sentence("6 use: NO: there is that one", FootBookPromises::thereIsThatUse);
     }
 
     private static void thirtyUses(FootBook x) {
@@ -254,302 +221,403 @@ public final class FootBookPromises {
         }
     }
 
-    private static void promise6Use() {
+    private static void numberOfAUse() {
+        FootBook x = new FootBook();
+        sixUnits(x);
+        for (int use = 0; use < 30; use++) {
+            due(x, use, "use", use % 8, 5, use / 8);
+            due(x, use + 1, "told", 2);
+        }
+    }
+
+    private static void useFromNowOn() {
         FootBook x = new FootBook();
         x.unit(0);
-        for (int use = 0; use < 30; use++) {
-            due("use " + use, x.use(use % 8, 0, use / 8), use);
+        x.wish(0, 1, 0, 0);
+        due(x, NONE, "best");
+        x.use(4, 0, 0);
+        due(x, 4, "best");
+        x.use(3, 0, 0);
+        due(x, 3, "best");
+        x.use(0, 0, 1);
+        due(x, 3, "best");
+    }
+
+    private static void useIsFull() {
+        refused(FootBookPromises::thirtyUses, FULL, "use", 7, 0, 3);
+        refused(FootBookPromises::thirtyUses, FULL, "use", 0, 1, 0);
+        refused(FootBookPromises::thirtyUses, FULL, "use", 0, 0, 0);
+        refused(Check::full, FULL, "use", 15, 5, 3);
+    }
+
+    private static void thereIsThatUse() {
+        FootBook x = readied(Check::small);
+        for (int use = 0; use < 5; use++) {
+            refused(Check::small, NO, "use", x.about(use, 0), x.about(use, 1), x.about(use, 2));
         }
-        due("use: told(2)", x.told(2), 30);
-        refused("use(7, 0, 3) as the 31st", FootBookPromises::thirtyUses, b -> b.use(7, 0, 3), FULL);
-        refused("use(0, 0, 0), there and full", FootBookPromises::thirtyUses, b -> b.use(0, 0, 0), FULL);
-        refused("use(0, 0, 4), full", FootBookPromises::thirtyUses, b -> b.use(0, 0, 4), OUTSIDE);
-        refused("use(0, 2, 4), full", FootBookPromises::thirtyUses, b -> b.use(0, 2, 4), UNKNOWN);
-        refused("use(2, 0, 1), there", FootBookPromises::small, b -> b.use(2, 0, 1), NO);
-        x = smallOne();
-        due("use(2, 0, 2), another role", x.use(2, 0, 2), 5);
-        due("use(2, 1, 1), another unit", x.use(2, 1, 1), 6);
-        due("use(3, 0, 1), another foot", x.use(3, 0, 1), 7);
-        for (int bad : new int[] {-1, 8, 16, LOWEST, HIGHEST}) {
-            refused("use(" + bad + ", 0, 0)", FootBookPromises::small, b -> b.use(bad, 0, 0), UNKNOWN);
-            refused("use(" + bad + ", 0, 9)", FootBookPromises::small, b -> b.use(bad, 0, 9), UNKNOWN);
-            refused("use(0, " + bad + ", 0)", FootBookPromises::small, b -> b.use(0, bad, 0), UNKNOWN);
-            refused("use(0, " + bad + ", 9)", FootBookPromises::small, b -> b.use(0, bad, 9), UNKNOWN);
-            refused("use(0, 0, " + bad + ")", FootBookPromises::small, b -> b.use(0, 0, bad), OUTSIDE);
+        // Right up to the last but one, where there is still room.
+        FootBook y = new FootBook();
+        y.unit(0);
+        for (int use = 0; use < 29; use++) {
+            due(y, use, "use", use % 8, 0, use / 8);
+            due(y, NO, "use", use % 8, 0, use / 8);
         }
-        refused("use(0, 2, 0)", FootBookPromises::small, b -> b.use(0, 2, 0), UNKNOWN);
-        refused("use(0, 0, 4)", FootBookPromises::small, b -> b.use(0, 0, 4), OUTSIDE);
+        due(y, 29, "use", 7, 0, 3);
+        due(y, FULL, "use", 7, 0, 3);
     }
 
     private static void promise7About() {
+        sentence("7 about: 0 FOOT, 1 UNIT, 2 ROLE", FootBookPromises::footUnitRole);
+        sentence("7 about: UNKNOWN: there is none such", () -> bounds(Check::small, UNKNOWN, 0, 4, "about", 0, 0, 2));
+        sentence("7 about: UNKNOWN without USES", () -> bounds(Check::nothing, UNKNOWN, 0, -1, "about", 0, 0, 0));
+        sentence("7 about: UNKNOWN with all", () -> bounds(Check::full, UNKNOWN, 0, 29, "about", 0, 0, 2));
+        sentence("7 about: OUTSIDE", () -> bounds(Check::small, OUTSIDE, 0, 2, "about", 1, 4, 0));
+    }
+
+    private static void footUnitRole() {
         FootBook x = new FootBook();
-        thirtyUses(x);
+        x.feet(16);
+        sixUnits(x);
         for (int use = 0; use < 30; use++) {
-            due("about(" + use + ", 0)", x.about(use, 0), use % 8);
-            due("about(" + use + ", 1)", x.about(use, 1), 0);
-            due("about(" + use + ", 2)", x.about(use, 2), use / 8);
+            x.use(15 - use / 2, use % 6, use % 4);
         }
-        x = smallOne();
-        due("about(4, 0)", x.about(4, 0), 4);
-        due("about(4, 1)", x.about(4, 1), 1);
-        due("about(4, 2)", x.about(4, 2), 2);
-        refused("about(30, 0) of 30", FootBookPromises::thirtyUses, b -> b.about(30, 0), UNKNOWN);
-        for (int bad : new int[] {-1, 5, 30, LOWEST, HIGHEST}) {
-            refused("about(" + bad + ", 0)", FootBookPromises::small, b -> b.about(bad, 0), UNKNOWN);
-            refused("about(" + bad + ", 3)", FootBookPromises::small, b -> b.about(bad, 3), UNKNOWN);
-            refused("about(0, " + bad + ")", FootBookPromises::small, b -> b.about(0, bad), OUTSIDE);
+        for (int use = 0; use < 30; use++) {
+            due(x, 15 - use / 2, "about", use, 0);
+            due(x, use % 6, "about", use, 1);
+            due(x, use % 4, "about", use, 2);
         }
-        refused("about(0, 3)", FootBookPromises::small, b -> b.about(0, 3), OUTSIDE);
     }
 
     private static void promise8Wish() {
-        FootBook x = new FootBook();
-        due("wish(0, 1, 0, 0)", x.wish(0, 1, 0, 0), 0);
-        due("wish(3, 15, 4, 7)", x.wish(3, 15, 4, 7), 1);
-        due("wish(3, 15, 4, 7) again", x.wish(3, 15, 4, 7), 2);
-        due("wish(1, 8, 1, 3)", x.wish(1, 8, 1, 3), 3);
-        due("wish: told(3)", x.told(3), 4);
-        due("wish: drop()", x.drop(), 3);
-        due("wish(2, 2, 2, 2)", x.wish(2, 2, 2, 2), 3);
-        due("wish: wished(3, 0)", x.wished(3, 0), 2);
-        wishRefusals("wish", (b, w) -> b.wish(w[0], w[1], w[2], w[3]));
+        sentence("8 wish: its number", FootBookPromises::numberOfAWish);
+        sentence("8 wish: from now on", FootBookPromises::wishFromNowOn);
+        wishRefusals("8", "wish");
     }
 
-    private interface Wish {
-        int on(FootBook x, int[] w);
+    private static void numberOfAWish() {
+        FootBook x = new FootBook();
+        due(x, 0, "wish", 0, 1, 0, 0);
+        due(x, 1, "wish", 3, 15, 4, 7);
+        due(x, 2, "wish", 3, 15, 4, 7);
+        due(x, 3, "wish", 1, 8, 1, 3);
+        due(x, 3, "drop");
+        due(x, 3, "wish", 2, 2, 2, 2);
+        due(x, 2, "wished", 3, 0);
+    }
+
+    private static void wishFromNowOn() {
+        FootBook x = oneFootEach(2);
+        due(x, 0, "best");
+        x.wish(0, 1, 0, 4);
+        due(x, 3, "best");
+        x.wish(0, 1, 0, 4);
+        due(x, 3 + 4, "best");
+        x.wish(0, 1, 0, 4);
+        due(x, NONE, "best");
     }
 
     /** wish() and trial() refuse alike. */
-    private static void wishRefusals(String name, Wish call) {
-        int[] unlike = {LOWEST, HIGHEST, -1, -2, 8, 16, 100};
-        for (int bad : unlike) {
-            int[][] refusals = {{0, 1, 0, bad}, {bad, 1, 0, bad}, {0, 0, 0, bad}, {0, 1, 5, bad}};
-            for (int[] w : refusals) {
-                dueOfWish(name, FootBookPromises::small, call, w, UNKNOWN);
-                dueOfWish(name, FootBookPromises::fourWishes, call, w, UNKNOWN);
+    private static void wishRefusals(String number, String name) {
+        String of = number + " " + name + ": ";
+        sentence(of + "UNKNOWN: the PLACE", () -> bounds(Check::small, UNKNOWN, 0, 7, name, 3, 1, 1, 0, 0));
+        sentence(of + "OUTSIDE (KIND)", () -> bounds(Check::small, OUTSIDE, 0, 3, name, 0, 0, 1, 0, 0));
+        sentence(of + "OUTSIDE (ROLES)", () -> bounds(Check::small, OUTSIDE, 1, 15, name, 1, 1, 1, 0, 0));
+        sentence(of + "OUTSIDE (VOLTAGE)", () -> bounds(Check::small, OUTSIDE, 0, 4, name, 2, 1, 1, 0, 0));
+        sentence(of + "FULL", () -> {
+            for (int kind = 0; kind < 4; kind++) {
+                refused(Check::full, FULL, name, kind, 1 + 4 * kind, kind, 5 * kind);
             }
-        }
-        int[][] outside = {{-1, 1, 0, 0}, {4, 1, 0, 0}, {LOWEST, 1, 0, 0}, {HIGHEST, 1, 0, 0}, {0, 0, 0, 0},
-            {0, 16, 0, 0}, {0, -1, 0, 0}, {0, LOWEST, 0, 0}, {0, HIGHEST, 0, 0}, {0, 1, -1, 0}, {0, 1, 5, 0},
-            {0, 1, LOWEST, 0}, {0, 1, HIGHEST, 0}};
-        for (int[] w : outside) {
-            dueOfWish(name, FootBookPromises::small, call, w, OUTSIDE);
-            dueOfWish(name, FootBookPromises::fourWishes, call, w, OUTSIDE);
-        }
-        dueOfWish(name, FootBookPromises::fourWishes, call, new int[] {0, 1, 0, 0}, FULL);
-        dueOfWish(name, FootBookPromises::fourWishes, call, new int[] {3, 15, 4, 7}, FULL);
-    }
-
-    private static void dueOfWish(String name, Consumer<FootBook> ready, Wish call, int[] w, int want) {
-        refused(name + "(" + w[0] + ", " + w[1] + ", " + w[2] + ", " + w[3] + ")", ready, b -> call.on(b, w), want);
+        });
+        sentence(of + "several refusals at once", () -> {
+            for (int bad : new int[] {LOWEST, HIGHEST, -1, 16}) {
+                refused(Check::full, UNKNOWN, name, bad, bad, bad, bad);
+                refused(Check::full, OUTSIDE, name, bad, bad, bad, 0);
+                refused(Check::small, UNKNOWN, name, bad, bad, bad, bad);
+            }
+        });
     }
 
     private static void promise9Wished() {
+        sentence("9 wished: 0 KIND, 1 ROLES, 2 VOLTAGE, 3 PLACE", FootBookPromises::kindRolesVoltagePlace);
+        sentence("9 wished: 10 and a ROLE: the FOOT on which it is FIXED (NONE)", FootBookPromises::footOnWhichFixed);
+        sentence("9 wished: UNKNOWN", () -> bounds(Check::impossible, UNKNOWN, 0, 1, "wished", 0, 0, 0));
+        sentence("9 wished: UNKNOWN without WISHES", () -> bounds(Check::nothing, UNKNOWN, 0, -1, "wished", 0, 0, 13));
+        sentence("9 wished: UNKNOWN with all", () -> bounds(Check::full, UNKNOWN, 0, 3, "wished", 0, 0, 10));
+        sentence("9 wished: OUTSIDE (0 to 3)", () -> bounds(Check::small, OUTSIDE, 0, 3, "wished", 1, 0, 0));
+        sentence("9 wished: OUTSIDE (10 to 13)", () -> bounds(Check::full, OUTSIDE, 10, 13, "wished", 1, 3, 0));
+        sentence("9 wished: OUTSIDE (between)", () -> {
+            for (int what = 4; what < 10; what++) {
+                refused(Check::full, OUTSIDE, "wished", 3, what);
+            }
+        });
+    }
+
+    private static void kindRolesVoltagePlace() {
         FootBook x = new FootBook();
-        x.wish(3, 5, 4, 7);
-        x.wish(1, 15, 0, 2);
-        x.fix(1, 0, 6);
-        x.fix(1, 3, 0);
-        int[][] want = {{3, 5, 4, 7}, {1, 15, 0, 2}};
-        for (int wish = 0; wish < 2; wish++) {
+        int[][] wishes = {{3, 5, 4, 7}, {0, 1, 0, 0}, {1, 15, 2, 3}, {2, 8, 1, 6}};
+        for (int[] wish : wishes) {
+            x.wish(wish[0], wish[1], wish[2], wish[3]);
+        }
+        for (int wish = 0; wish < 4; wish++) {
             for (int what = 0; what < 4; what++) {
-                due("wished(" + wish + ", " + what + ")", x.wished(wish, what), want[wish][what]);
+                due(x, wishes[wish][what], "wished", wish, what);
             }
         }
-        int[][] fixed = {{NONE, NONE, NONE, NONE}, {6, NONE, NONE, 0}};
-        for (int wish = 0; wish < 2; wish++) {
-            for (int role = 0; role < 4; role++) {
-                due("wished(" + wish + ", 1" + role + ")", x.wished(wish, 10 + role), fixed[wish][role]);
-            }
+    }
+
+    private static void footOnWhichFixed() {
+        FootBook x = new FootBook();
+        x.feet(16);
+        for (int wish = 0; wish < 4; wish++) {
+            x.wish(0, 15, 0, 0);
         }
-        for (int bad : new int[] {-1, 1, 4, LOWEST, HIGHEST}) {
-            refused("wished(" + bad + ", 0)", FootBookPromises::small, b -> b.wished(bad, 0), UNKNOWN);
-            refused("wished(" + bad + ", 4)", FootBookPromises::small, b -> b.wished(bad, 4), UNKNOWN);
+        for (int slot = 0; slot < 16; slot++) {
+            due(x, NONE, "wished", slot / 4, 10 + slot % 4);
+            x.fix(slot / 4, slot % 4, 15 - slot);
         }
-        for (int bad : new int[] {-1, 4, 5, 9, 14, LOWEST, LOWEST + 9, HIGHEST}) {
-            refused("wished(0, " + bad + ")", FootBookPromises::small, b -> b.wished(0, bad), OUTSIDE);
+        for (int slot = 0; slot < 16; slot++) {
+            due(x, 15 - slot, "wished", slot / 4, 10 + slot % 4);
+        }
+        x.fix(2, 1, -1);
+        due(x, NONE, "wished", 2, 11);
+        // A ROLE that is not wished is not FIXED.
+        x.feet(8);
+        x.wish(0, 2, 0, 0);
+        x.fix(0, 1, 0);
+        int[] want = {NONE, 0, NONE, NONE};
+        for (int role = 0; role < 4; role++) {
+            due(x, want[role], "wished", 0, 10 + role);
         }
     }
 
     private static void promise10Fix() {
-        FootBook x = smallOne();
-        due("fix(0, 0, 0)", x.fix(0, 0, 0), NONE);
-        due("fix: wished(0, 10)", x.wished(0, 10), 0);
-        due("fix: best(), as it is fixed", x.best(), 2);
-        due("fix: given(0, 0)", x.given(0, 0), 0);
-        due("fix(0, 0, 1)", x.fix(0, 0, 1), 0);
-        due("fix: best(), fixed anew", x.best(), 1);
-        due("fix(0, 0, 7), which can't", x.fix(0, 0, 7), 1);
-        due("fix: best(), on a foot that can't", x.best(), NONE);
-        due("fix(0, 0, -1)", x.fix(0, 0, -1), 7);
-        due("fix(0, 0, -1) again", x.fix(0, 0, -1), NONE);
-        due("fix: best(), free again", x.best(), 1);
+        sentence("10 fix: on which it was (NONE)", FootBookPromises::onWhichItWas);
+        sentence("10 fix: -1: it is not", FootBookPromises::fixedNoMore);
+        sentence("10 fix: from now on", FootBookPromises::fixedFromNowOn);
+        sentence("10 fix: UNKNOWN (WISH)", () -> bounds(Check::small, UNKNOWN, 0, 0, "fix", 0, 0, 0, 0));
+        sentence("10 fix: UNKNOWN (WISH), with all", () -> bounds(Check::full, UNKNOWN, 0, 3, "fix", 0, 0, 0, -1));
+        sentence("10 fix: UNKNOWN (FOOT)", () -> bounds(Check::small, UNKNOWN, -1, 7, "fix", 2, 0, 0, 0));
+        sentence("10 fix: UNKNOWN (FOOT), of 16", () -> bounds(Check::full, UNKNOWN, -1, 15, "fix", 2, 3, 1, 0));
+        sentence("10 fix: OUTSIDE: the ROLE is not wished", () -> roleIsNotWished("fix", 0));
+        sentence("10 fix: OUTSIDE: the ROLE is not wished, -1", () -> roleIsNotWished("fix", -1));
+    }
+
+    private static void onWhichItWas() {
+        FootBook x = new FootBook();
+        x.wish(0, 15, 0, 0);
+        x.wish(0, 15, 0, 0);
+        int before = NONE;
+        for (int foot : new int[] {0, 7, 7, 3, -1, -1, 5, 0}) {
+            due(x, before, "fix", 1, 3, foot);
+            before = foot == -1 ? NONE : foot;
+            due(x, before, "wished", 1, 13);
+            due(x, NONE, "wished", 0, 13);
+            due(x, NONE, "wished", 1, 12);
+        }
+    }
+
+    private static void fixedNoMore() {
+        FootBook x = readied(Check::small);
+        due(x, NONE, "fix", 0, 0, -1);
+        due(x, NONE, "fix", 0, 0, 7);
+        due(x, NONE, "best");
+        due(x, 7, "fix", 0, 0, -1);
+        due(x, NONE, "wished", 0, 10);
+        due(x, 1, "best");
+        due(x, 1, "given", 0, 0);
+    }
+
+    private static void fixedFromNowOn() {
+        FootBook x = readied(Check::small);
+        due(x, 1, "best");
+        x.fix(0, 0, 0);
+        due(x, 2, "best");
+        due(x, 0, "given", 0, 0);
+        x.fix(0, 0, 1);
+        due(x, 1, "best");
         x.fix(0, 1, 2);
+        due(x, 1, "best");
+        x.fix(0, 1, 1);
+        due(x, NONE, "best");
+        // It goes with its WISH.
         x.drop();
         x.wish(0, 3, 0, 1);
-        due("a new wish has nothing fixed", x.wished(0, 11), NONE);
-        x = smallOne();
-        x.wish(1, 1, 0, 0);
-        x.fix(0, 0, 3);
-        due("fix: the other wish is free", x.wished(1, 10), NONE);
-        for (int bad : new int[] {-1, 1, 4, LOWEST, HIGHEST}) {
-            refused("fix(" + bad + ", 0, 0)", FootBookPromises::small, b -> b.fix(bad, 0, 0), UNKNOWN);
-            refused("fix(" + bad + ", 3, 0)", FootBookPromises::small, b -> b.fix(bad, 3, 0), UNKNOWN);
+        due(x, NONE, "wished", 0, 11);
+        due(x, 1, "best");
+    }
+
+    /** Of every set of ROLES: all that are not in it, and all that are none. */
+    private static void roleIsNotWished(String name, int... rest) {
+        for (int set = 1; set <= 15; set++) {
+            int roles = set;
+            Consumer<FootBook> ready = x -> x.wish(0, roles, 0, 0);
+            for (int role = 0; role < 4; role++) {
+                if ((roles >> role & 1) != 0) {
+                    taken(ready, name, with(role, rest));
+                } else {
+                    refused(ready, OUTSIDE, name, with(role, rest));
+                }
+            }
         }
-        for (int bad : new int[] {-2, 8, 16, NONE, LOWEST, HIGHEST}) {
-            refused("fix(0, 0, " + bad + ")", FootBookPromises::small, b -> b.fix(0, 0, bad), UNKNOWN);
-            refused("fix(0, 3, " + bad + ")", FootBookPromises::small, b -> b.fix(0, 3, bad), UNKNOWN);
+        for (int role : new int[] {-2, 4, 5, 31, 32, 33, 35, -29, -31, -32, LOWEST, LOWEST + 1, HIGHEST - 1, HIGHEST}) {
+            refused(x -> x.wish(0, 15, 0, 0), OUTSIDE, name, with(role, rest));
         }
-        for (int bad : new int[] {2, 3, 4, -1, 32, 33, LOWEST, HIGHEST}) {
-            refused("fix(0, " + bad + ", 0)", FootBookPromises::small, b -> b.fix(0, bad, 0), OUTSIDE);
-            refused("fix(0, " + bad + ", -1)", FootBookPromises::small, b -> b.fix(0, bad, -1), OUTSIDE);
-        }
+    }
+
+    private static int[] with(int role, int[] rest) {
+        int[] all = new int[2 + rest.length];
+        all[1] = role;
+        System.arraycopy(rest, 0, all, 2, rest.length);
+        return all;
     }
 
     private static void promise11Drop() {
+        sentence("11 drop: the latest WISH goes: how many there are", FootBookPromises::theLatestGoes);
+        sentence("11 drop: THE HAND stays", FootBookPromises::handStaysAfterDrop);
+        sentence("11 drop: UNKNOWN: there is none", FootBookPromises::dropOfNone);
+    }
+
+    private static void theLatestGoes() {
         FootBook x = new FootBook();
-        fourWishes(x);
+        for (int wish = 0; wish < 4; wish++) {
+            x.wish(wish, 1 + wish, wish, wish);
+        }
         for (int left = 3; left >= 0; left--) {
-            due("drop()", x.drop(), left);
-            due("drop: told(3)", x.told(3), left);
-            due("drop: the latest is gone", x.wished(left, 0), UNKNOWN);
-            if (left > 0) {
-                due("drop: the one ahead stays", x.wished(left - 1, 1), left);
+            due(x, left, "drop");
+            due(x, left, "told", 3);
+            due(x, UNKNOWN, "wished", left, 0);
+            for (int wish = 0; wish < left; wish++) {
+                due(x, wish, "wished", wish, 0);
+                due(x, 1 + wish, "wished", wish, 1);
             }
         }
-        due("drop: best() of none", x.best(), 0);
-        refused("drop() of none", FootBookPromises::nothing, b -> b.drop(), UNKNOWN);
-        x = smallOne();
+        x = readied(Check::impossible);
+        due(x, NONE, "best");
+        due(x, 1, "drop");
+        due(x, 1, "best");
+        due(x, 0, "drop");
+        due(x, 0, "best");
+    }
+
+    private static void handStaysAfterDrop() {
+        FootBook x = readied(Check::small);
         x.drop();
-        due("drop: the hand stays", x.held(0, 0), 1);
+        due(x, 1, "held", 0, 0);
+        due(x, 1, "told", 4);
+        due(x, 2, "setting", -1);
+    }
+
+    private static void dropOfNone() {
+        refused(Check::nothing, UNKNOWN, "drop");
+        refused(Check::sixUnits, UNKNOWN, "drop");
+        refused(x -> {
+            small(x);
+            x.drop();
+        }, UNKNOWN, "drop");
+        FootBook x = new FootBook();
+        x.drop();
+        x.drop();
+        due(x, 0, "wish", 0, 1, 0, 0);
     }
 
     private static void promise12Best() {
-        due("best() without wishes", new FootBook().best(), 0);
-        FootBook x = smallOne();
-        due("best()", x.best(), 1);
-        x.wish(0, 1, 0, 0);
-        due("best(): one unit for two wishes", x.best(), NONE);
-        x.drop();
-        x.wish(2, 1, 0, 0);
-        due("best(): no unit of the kind", x.best(), NONE);
-        x.drop();
-        x.wish(1, 2, 0, 0);
-        due("best(): no foot for the role", x.best(), NONE);
-        x.drop();
+        sentence("12 best: COST of THE BEST GIVING", FootBookPromises::costOfTheBest);
+        sentence("12 best: NONE: there is none", FootBookPromises::noneIsBest);
+    }
+
+    private static void costOfTheBest() {
+        FootBook x = readied(Check::small);
+        due(x, 1, "best");
         x.wish(1, 5, 0, 0);
-        due("best(): both ways round", x.best(), 1 + 3 + 4);
-        x.volt(4, 2);
-        due("best(): unlike voltages where 0 is told", x.best(), 1 + 3 + 4);
-        x.drop();
-        x.wish(1, 5, 2, 0);
-        due("best(): one foot is of another voltage", x.best(), NONE);
-        x.volt(3, 2);
-        due("best(): both of the told voltage", x.best(), 1 + 3 + 4);
-        x.use(2, 1, 0);
-        x.volt(2, 2);
-        due("best(): no foot has two roles", x.best(), 1 + 3 + 4);
+        due(x, 1 + 3 + 4, "best");
         x.feet(5);
         x.unit(0);
         x.use(4, 0, 0);
         x.wish(0, 1, 0, 0);
-        due("best(): one step back round the ring", x.best(), 1);
+        due(x, 1, "best");
         x.feet(16);
         x.unit(0);
-        x.use(0, 0, 0);
-        x.use(1, 0, 1);
-        x.use(2, 0, 2);
-        x.use(3, 0, 3);
+        for (int role = 0; role < 4; role++) {
+            x.use(role, 0, role);
+        }
         x.wish(0, 15, 0, 10);
-        due("best(): 6 + 7 + 8 + 7 steps", x.best(), 28);
+        due(x, 6 + 7 + 8 + 7, "best");
+        due(readied(Check::nothing), 0, "best");
     }
 
-    private static void promise12BestIsTheFirst() {
-        FootBook x = new FootBook();
-        x.unit(0);
-        x.unit(0);
-        x.use(3, 1, 0);
-        x.use(3, 0, 0);
-        x.use(1, 0, 0);
-        x.use(1, 1, 0);
-        x.wish(0, 1, 0, 2);
-        due("best(): two units, two feet", x.best(), 1);
-        due("best(): the lesser unit", x.given(0, -1), 0);
-        due("best(): the lesser foot", x.given(0, 0), 1);
-        x.wish(0, 1, 0, 2);
-        due("best(): wish 1 takes the other unit", x.given(1, -1), 1);
-        due("best(): wish 1 takes the other foot", x.given(1, 0), 3);
-        x = new FootBook();
-        x.unit(0);
-        x.unit(0);
-        x.unit(1);
-        x.use(1, 0, 0);
-        x.use(0, 1, 0);
-        x.use(1, 2, 0);
-        x.use(2, 2, 0);
+    private static void noneIsBest() {
+        FootBook x = readied(Check::small);
         x.wish(0, 1, 0, 0);
-        x.wish(1, 1, 0, 1);
-        due("best(): the least cost comes ahead of the first", x.best(), 0);
-        due("best(): so the greater unit", x.given(0, -1), 1);
+        due(x, NONE, "best");
+        x.drop();
+        x.wish(2, 1, 0, 0);
+        due(x, NONE, "best");
+        x.drop();
+        x.wish(1, 2, 0, 0);
+        due(x, NONE, "best");
+        x.drop();
+        x.wish(1, 1, 4, 0);
+        due(x, NONE, "best");
+        x.drop();
+        x.wish(1, 1, 0, 0);
+        x.fix(1, 0, 0);
+        due(x, NONE, "best");
+        due(x, NONE, "best");
+        refused(Check::impossible, NONE, "best");
     }
 
     private static void promise13Given() {
-        FootBook x = smallOne();
-        x.wish(1, 4, 0, 0);
-        due("given(0, -1)", x.given(0, -1), 0);
-        due("given(0, 0)", x.given(0, 0), 1);
-        due("given(0, 1)", x.given(0, 1), 2);
-        due("given(1, -1)", x.given(1, -1), 1);
-        due("given(1, 2)", x.given(1, 2), 4);
-        x.volt(4, 2);
-        due("given(1, 2) of voltage 0", x.given(1, 2), 4);
-        x.wish(1, 1, 0, 0);
-        due("given(0, -1), no giving", x.given(0, -1), NONE);
-        due("given(0, 0), no giving", x.given(0, 0), NONE);
-        due("given(0, 2), no giving", x.given(0, 2), OUTSIDE);
-        due("given(3, 0), no giving", x.given(3, 0), UNKNOWN);
-        for (int bad : new int[] {-1, 1, 4, LOWEST, HIGHEST}) {
-            refused("given(" + bad + ", -1)", FootBookPromises::small, b -> b.given(bad, -1), UNKNOWN);
-            refused("given(" + bad + ", 3)", FootBookPromises::small, b -> b.given(bad, 3), UNKNOWN);
-        }
-        for (int bad : new int[] {-2, 2, 3, 4, 32, LOWEST, HIGHEST}) {
-            refused("given(0, " + bad + ")", FootBookPromises::small, b -> b.given(0, bad), OUTSIDE);
-        }
-        due("given(0, 0) without wishes", new FootBook().given(0, 0), UNKNOWN);
+        sentence("13 given: the UNIT of a WISH (role = -1), the FOOT of a ROLE of it", FootBookPromises::unitAndFeet);
+        sentence("13 given: UNKNOWN", () -> bounds(Check::small, UNKNOWN, 0, 0, "given", 0, 0, -1));
+        sentence("13 given: UNKNOWN with all", () -> bounds(Check::full, UNKNOWN, 0, 3, "given", 0, 0, 1));
+        sentence("13 given: UNKNOWN without WISHES", () -> bounds(Check::nothing, UNKNOWN, 0, -1, "given", 0, 0, -1));
+        sentence("13 given: OUTSIDE: the ROLE is not wished", FootBookPromises::roleNotGiven);
+        sentence("13 given: NONE: there is no GIVING", FootBookPromises::nothingGiven);
     }
 
-    /** CROSSINGS of a wire from one PLACE to one FOOT and another from another. */
-    private static int crossingsOf(int placeA, int footA, int placeB, int footB) {
-        FootBook x = new FootBook();
-        x.unit(0);
-        x.unit(1);
-        x.use(footA, 0, 0);
-        x.use(footB, 1, 0);
-        x.wish(0, 1, 0, placeA);
-        x.wish(1, 1, 0, placeB);
-        return x.crossings();
+    private static void unitAndFeet() {
+        FootBook x = readied(Check::small);
+        x.wish(1, 4, 0, 0);
+        due(x, 0, "given", 0, -1);
+        due(x, 1, "given", 0, 0);
+        due(x, 2, "given", 0, 1);
+        due(x, 1, "given", 1, -1);
+        due(x, 4, "given", 1, 2);
+        // Of the best, not of the hand.
+        x.use(1, 0, 1);
+        due(x, 0, "given", 0, 0);
+        due(x, 1, "given", 0, 1);
+        due(x, 1, "held", 0, 0);
+    }
+
+    private static void roleNotGiven() {
+        roleIsNotWished("given");
+        bounds(x -> x.wish(0, 15, 0, 0), OUTSIDE, -1, 3, "given", 1, 0, 0);
+        refused(Check::small, OUTSIDE, "given", 0, 2);
+        refused(Check::small, OUTSIDE, "given", 0, 3);
+    }
+
+    private static void nothingGiven() {
+        FootBook x = readied(Check::impossible);
+        due(x, NONE, "given", 0, -1);
+        due(x, NONE, "given", 0, 0);
+        due(x, NONE, "given", 0, 1);
+        due(x, OUTSIDE, "given", 0, 2);
+        due(x, NONE, "given", 1, -1);
+        due(x, NONE, "given", 1, 0);
+        due(x, UNKNOWN, "given", 2, -1);
+        x.drop();
+        due(x, 0, "given", 0, -1);
     }
 
     private static void promise14Crossings() {
-        due("crossings() without wishes", new FootBook().crossings(), 0);
-        due("crossings: 0-4, 2-6", crossingsOf(0, 4, 2, 6), 1);
-        due("crossings: 4-0, 6-2", crossingsOf(4, 0, 6, 2), 1);
-        due("crossings: 2-6, 4-0", crossingsOf(2, 6, 4, 0), 1);
-        due("crossings: 0-4, 1-3, within", crossingsOf(0, 4, 1, 3), 0);
-        due("crossings: 1-3, 0-4, round it", crossingsOf(1, 3, 0, 4), 0);
-        due("crossings: 0-4, 5-7, outside", crossingsOf(0, 4, 5, 7), 0);
-        due("crossings: 0-4, 4-6, one end alike", crossingsOf(0, 4, 4, 6), 0);
-        due("crossings: 4-0, 0-6, one end alike", crossingsOf(4, 0, 0, 6), 0);
-        due("crossings: 0-4, 4-2, one end alike, the other within", crossingsOf(0, 4, 4, 2), 0);
-        due("crossings: 4-0, 2-4, one end alike, the other within", crossingsOf(4, 0, 2, 4), 0);
-        due("crossings: 0-4, 0-2, places alike", crossingsOf(0, 4, 0, 2), 0);
-        due("crossings: 4-0, 4-2, places alike", crossingsOf(4, 0, 4, 2), 0);
-        due("crossings: 0-4, 2-2, no way at all", crossingsOf(0, 4, 2, 2), 0);
-        due("crossings: 3-3, 0-6", crossingsOf(3, 3, 0, 6), 0);
-        due("crossings: 0-7, 6-1", crossingsOf(0, 7, 6, 1), 0);
-        due("crossings: 0-6, 7-1", crossingsOf(0, 6, 7, 1), 1);
-        due("crossings: one foot for both", crossingsOf(0, 4, 2, 4), NONE);
+        sentence("14 crossings: CROSSINGS of THE BEST GIVING", FootBookPromises::crossingsOfTheBest);
+        sentence("14 crossings: NONE", FootBookPromises::crossingsOfNone);
+    }
+
+    private static void crossingsOfTheBest() {
         FootBook x = new FootBook();
+        due(x, 0, "crossings");
         x.unit(0);
         x.unit(1);
         x.use(4, 0, 0);
@@ -557,118 +625,90 @@ public final class FootBookPromises {
         x.use(6, 1, 2);
         x.use(7, 1, 3);
         x.wish(0, 3, 0, 0);
+        due(x, 0, "crossings");
         x.wish(1, 12, 0, 2);
-        due("crossings: each wire of one over each of the other", x.crossings(), 4);
+        due(x, 4, "crossings");
+        // The hand goes on with what it has; the best is another now.
+        x.hold();
+        x.use(3, 1, 2);
+        due(x, 2, "crossings");
+        x.use(1, 1, 3);
+        due(x, 0, "crossings");
+        x.drop();
+        due(x, 0, "crossings");
+    }
+
+    private static void crossingsOfNone() {
+        due(readied(Check::impossible), NONE, "crossings");
+        due(readied(Check::impossibleAndNothingHeld), NONE, "crossings");
+        refused(Check::impossible, NONE, "crossings");
     }
 
     private static void promise15Blame() {
-        due("blame() without wishes", new FootBook().blame(), 0);
-        FootBook x = smallOne();
-        due("blame(), a giving", x.blame(), 0);
-        x.wish(0, 1, 0, 0);
-        due("blame(): both of one unit", x.blame(), 3);
-        x.wish(2, 1, 0, 0);
-        due("blame(): one alone is fewer", x.blame(), 4);
-        x.wish(3, 1, 0, 0);
-        due("blame(): of two alone the lesser", x.blame(), 4);
-        x = smallOne();
-        x.wish(2, 1, 0, 0);
-        x.fix(0, 0, 7);
-        due("blame(): wish 0 alone ahead of wish 1 alone", x.blame(), 1);
-        blameOfPairs();
-        x = oneFootEach(2);
-        x.wish(0, 1, 0, 0);
-        x.wish(0, 1, 0, 0);
-        x.wish(0, 1, 0, 0);
-        due("blame(): three for two units", x.blame(), 7);
-        x.wish(0, 1, 0, 0);
-        due("blame(): of several threes the first", x.blame(), 7);
-        x = oneFootEach(3);
-        for (int i = 0; i < 4; i++) {
-            x.wish(0, 1, 0, i);
-        }
-        due("blame(): four for three units", x.blame(), 15);
-        x = new FootBook();
-        x.unit(0);
-        x.unit(1);
-        x.use(0, 0, 0);
-        x.use(1, 0, 0);
-        x.use(0, 1, 0);
-        x.use(1, 1, 0);
-        x.wish(0, 1, 0, 0);
-        x.wish(1, 1, 0, 0);
-        x.fix(0, 0, 1);
-        due("blame(): one fixed, the other goes elsewhere", x.blame(), 0);
-        x.fix(1, 0, 1);
-        due("blame(): both fixed on one foot", x.blame(), 3);
+        sentence("15 blame: THE BLAME, as bits", FootBookPromises::blameAsBits);
+        sentence("15 blame: 0: there is a GIVING", FootBookPromises::noBlame);
     }
 
-    private static void blameOfPairs() {
-        // WISHES 0 and 3 want the one UNIT of KIND 0, 1 and 2 that of KIND 1: 0 and 3 come first, though their bits are more.
-        FootBook x = new FootBook();
-        for (int kind = 0; kind < 2; kind++) {
-            x.unit(kind);
-            x.use(kind, kind, 0);
+    private static void blameAsBits() {
+        FootBook x = readied(Check::small);
+        x.wish(0, 1, 0, 0);
+        due(x, 3, "blame");
+        x.wish(2, 1, 0, 0);
+        due(x, 4, "blame");
+        x.wish(3, 1, 0, 0);
+        due(x, 4, "blame");
+        x.fix(0, 0, 7);
+        due(x, 1, "blame");
+        x = oneFootEach(3);
+        for (int wish = 0; wish < 4; wish++) {
+            x.wish(0, 1, 0, 0);
         }
-        x.wish(0, 1, 0, 0);
-        x.wish(1, 1, 0, 0);
-        x.wish(1, 1, 0, 0);
-        due("blame(): wishes 1 and 2", x.blame(), 6);
-        x.wish(0, 1, 0, 0);
-        due("blame(): wishes 0 and 3 ahead of 1 and 2", x.blame(), 9);
+        due(x, 15, "blame");
+        refused(Check::impossible, 2, "blame");
+    }
+
+    private static void noBlame() {
+        due(new FootBook(), 0, "blame");
+        due(readied(Check::small), 0, "blame");
+        due(readied(Check::full), 0, "blame");
+        FootBook x = readied(Check::impossible);
+        due(x, 2, "blame");
         x.drop();
-        x.wish(1, 1, 0, 0);
-        due("blame(): 1 and 2 ahead of 1 and 3 and 2 and 3", x.blame(), 6);
-        x = new FootBook();
-        x.unit(0);
-        x.unit(0);
-        x.unit(1);
-        x.use(0, 0, 0);
-        x.use(1, 1, 0);
-        x.use(2, 2, 0);
-        int[] kinds = {0, 1, 0, 0};
-        for (int kind : kinds) {
-            x.wish(kind, 1, 0, 0);
-        }
-        due("blame(): wishes 0, 2 and 3", x.blame(), 13);
+        due(x, 0, "blame");
     }
 
     private static void promise16Many() {
-        due("many() without wishes", new FootBook().many(), 1);
-        FootBook x = smallOne();
-        due("many()", x.many(), 2);
+        sentence("16 many: how many GIVINGS there are", FootBookPromises::howManyGivings);
+        sentence("16 many: 100000 at most", FootBookPromises::hundredThousandAtMost);
+    }
+
+    private static void howManyGivings() {
+        FootBook x = new FootBook();
+        due(x, 1, "many");
+        x = readied(Check::small);
+        due(x, 2, "many");
         x.wish(1, 5, 0, 0);
-        due("many(): the other unit can do it in one way", x.many(), 2);
+        due(x, 2, "many");
         x.use(2, 1, 0);
-        due("many(): foot 2 is taken", x.many(), 2);
+        due(x, 2, "many");
         x.use(5, 1, 0);
-        due("many(): foot 5 is not", x.many(), 4);
+        due(x, 4, "many");
         x.wish(0, 1, 0, 0);
-        due("many(): none", x.many(), 0);
-        manyOnTheSameFeet(1);
-        manyOnTheSameFeet(2);
-        manyOnTheSameFeet(15);
+        due(x, 0, "many");
+        for (int feet = 1; feet <= 15; feet++) {
+            due("many() on the same " + feet + " feet", manyOnTheSameFeet(feet), feet * (feet - 1));
+        }
         x = oneFootEach(6);
-        for (int i = 0; i < 4; i++) {
-            x.wish(0, 1, 0, i);
+        int many = 1;
+        for (int wish = 0; wish < 4; wish++) {
+            x.wish(0, 1, 0, wish);
+            many *= 6 - wish;
+            due(x, many, "many");
         }
-        due("many(): units in order", x.many(), 6 * 5 * 4 * 3);
-        x = new FootBook();
-        x.feet(16);
-        for (int unit = 0; unit < 6; unit++) {
-            x.unit(0);
-            for (int i = 0; i < 5; i++) {
-                x.use((unit * 5 + i) % 16, unit, 0);
-            }
-        }
-        for (int i = 0; i < 4; i++) {
-            x.wish(0, 1, 0, 0);
-        }
-        due("many(): no more than 100000", x.many(), 100000);
     }
 
     /** Two UNITS of unlike KINDS that can both do ROLE 0 on the same FEET. */
-    private static void manyOnTheSameFeet(int feet) {
+    private static int manyOnTheSameFeet(int feet) {
         FootBook x = new FootBook();
         x.feet(16);
         for (int unit = 0; unit < 2; unit++) {
@@ -679,25 +719,76 @@ public final class FootBookPromises {
         }
         x.wish(0, 1, 0, 0);
         x.wish(1, 1, 0, 0);
-        due("many(): two of " + feet + " feet, unlike", x.many(), feet * (feet - 1));
+        return x.many();
+    }
+
+    /** Books whose GIVINGS were counted by another program: a few less than 100000, just so many, a few more. */
+    private static void hundredThousandAtMost() {
+        int[][] less = {{6, 8, 11, 13, 14}, {0, 1, 5, 7, 8, 10}, {0, 8, 14}, {2, 4, 5, 15}, {2, 5, 8, 9, 10},
+            {3, 6, 8, 10, 15}};
+        int[][] justSo = {{0, 4, 6, 7}, {2, 5, 8, 9, 15}, {1, 3, 6, 12, 13}, {7, 8, 10, 11, 14}, {1, 3, 5, 11},
+            {3, 6, 10, 12, 13}};
+        int[][] more = {{2, 3, 8, 15}, {1, 2, 4, 11, 14, 15}, {6, 7, 8, 9, 12, 14}, {2, 3, 6, 10, 12}, {0, 5, 7, 9},
+            {4, 5, 6, 12}};
+        due("many() of 99996", manyOfFeet(less, 1), 99996);
+        due("many() of 100000", manyOfFeet(justSo, 5, 9), 100000);
+        due("many() of 100004", manyOfFeet(more, 4, 7), 100000);
+        FootBook x = new FootBook();
+        x.feet(16);
+        for (int unit = 0; unit < 6; unit++) {
+            x.unit(0);
+            for (int i = 0; i < 5; i++) {
+                x.use((unit * 5 + i) % 16, unit, 0);
+            }
+        }
+        for (int wish = 0; wish < 4; wish++) {
+            x.wish(0, 1, 0, 0);
+        }
+        due(x, 100000, "many");
+        due(x, 0, "blame");
+        x.drop();
+        x.drop();
+        due(x, 30 * 25 - 2 * 14, "many");
+    }
+
+    /** One ROLE, FEET by UNIT; WISHES 1 and 3 may not have the told FEET. */
+    private static int manyOfFeet(int[][] feetByUnit, int... otherVoltage) {
+        FootBook x = new FootBook();
+        x.feet(16);
+        for (int foot : otherVoltage) {
+            x.volt(foot, 2);
+        }
+        for (int unit = 0; unit < 6; unit++) {
+            x.unit(0);
+            for (int foot : feetByUnit[unit]) {
+                x.use(foot, unit, 0);
+            }
+        }
+        for (int wish = 0; wish < 4; wish++) {
+            x.wish(0, 1, wish % 2, 0);
+        }
+        return x.many();
     }
 
     private static void promise17Trial() {
-        FootBook x = smallOne();
-        due("trial(1, 1, 0, 0)", x.trial(1, 1, 0, 0), 1 + 3);
-        due("trial: it is not kept", x.told(3), 1);
-        due("trial: best() stays", x.best(), 1);
-        due("trial: given(0, 0) stays", x.given(0, 0), 1);
-        due("trial: given(1, -1) stays", x.given(1, -1), UNKNOWN);
-        due("trial(0, 1, 0, 0), the unit is given", x.trial(0, 1, 0, 0), NONE);
-        due("trial(1, 1, 2, 0), no such voltage", x.trial(1, 1, 2, 0), NONE);
-        due("trial(1, 5, 1, 3)", x.trial(1, 5, 1, 3), 1 + 0 + 1);
-        due("trial: held(1, -1) stays", x.held(1, -1), NONE);
+        sentence("17 trial: COST of the best; NONE", FootBookPromises::costOfATrial);
+        sentence("17 trial: it is not kept", FootBookPromises::trialIsNotKept);
+        wishRefusals("17", "trial");
+    }
+
+    private static void costOfATrial() {
+        FootBook x = readied(Check::small);
+        due(x, 1 + 3, "trial", 1, 1, 0, 0);
+        due(x, NONE, "trial", 0, 1, 0, 0);
+        due(x, NONE, "trial", 1, 1, 2, 0);
+        due(x, 1 + 0 + 1, "trial", 1, 5, 1, 3);
         FootBook one = new FootBook();
         one.unit(0);
         one.use(3, 0, 0);
-        due("trial(0, 1, 0, 0) of the first wish", one.trial(0, 1, 0, 0), 3);
-        due("trial: wished(0, 0)", one.wished(0, 0), UNKNOWN);
+        due(one, 3, "trial", 0, 1, 0, 0);
+        due(one, 0, "trial", 0, 1, 0, 3);
+        due(readied(Check::impossible), NONE, "trial", 1, 1, 0, 0);
+        // The WISHES that are there may move for it.
         FootBook moved = new FootBook();
         moved.unit(0);
         moved.unit(1);
@@ -705,46 +796,97 @@ public final class FootBookPromises {
         moved.use(1, 0, 0);
         moved.use(0, 1, 0);
         moved.wish(0, 1, 0, 0);
-        due("trial(1, 1, 0, 0) moves wish 0", moved.trial(1, 1, 0, 0), 1);
-        due("trial: given(0, 0) is not moved", moved.given(0, 0), 0);
+        due(moved, 1, "trial", 1, 1, 0, 0);
+        due(moved, 0, "given", 0, 0);
+        // What was FIXED of a WISH that went is not of this one.
         moved.wish(1, 1, 0, 0);
-        moved.fix(1, 0, 0);
+        moved.fix(1, 0, 5);
         moved.drop();
-        due("trial: what was fixed is gone", moved.trial(1, 1, 0, 0), 1);
-        FootBook none = smallOne();
-        none.wish(2, 1, 0, 0);
-        due("trial(1, 1, 0, 0), none even without it", none.trial(1, 1, 0, 0), NONE);
-        wishRefusals("trial", (b, w) -> b.trial(w[0], w[1], w[2], w[3]));
+        due(moved, 1, "trial", 1, 1, 0, 0);
+        // What is FIXED of the others holds.
+        moved.fix(0, 0, 0);
+        due(moved, NONE, "trial", 1, 1, 0, 0);
     }
 
-    private static void impossible(FootBook x) {
-        small(x);
-        x.wish(2, 1, 0, 0);
-    }
-
-    private static void impossibleAndNothingHeld(FootBook x) {
-        x.wish(2, 1, 0, 0);
+    private static void trialIsNotKept() {
+        int[][] trials = {{1, 1, 0, 0}, {0, 1, 0, 0}, {1, 5, 1, 3}, {3, 15, 4, 7}};
+        for (int[] w : trials) {
+            FootBook x = readied(Check::small);
+            String before = allThatCanBeRead(x);
+            x.trial(w[0], w[1], w[2], w[3]);
+            same("trial()", before, allThatCanBeRead(x));
+            due(x, 1, "wish", 1, 1, 0, 0);
+        }
+        FootBook x = oneFootEach(6);
+        for (int wish = 0; wish < 3; wish++) {
+            x.wish(0, 1, 0, 0);
+            x.hold();
+        }
+        String before = allThatCanBeRead(x);
+        due(x, 0 + 1 + 2 + 3, "trial", 0, 1, 0, 0);
+        same("trial() as the fourth", before, allThatCanBeRead(x));
+        due(x, UNKNOWN, "wished", 3, 0);
+        due(x, UNKNOWN, "given", 3, -1);
     }
 
     private static void promise18Hold() {
-        FootBook x = new FootBook();
-        due("hold() without wishes", x.hold(), 1);
-        due("hold: stands(), a giving of none", x.stands(), 1);
-        due("hold: told(4), none given", x.told(4), 0);
-        due("hold: change(), none to none", x.change(), 0);
-        x = smallOne();
+        sentence("18 hold: THE HAND holds THE BEST GIVING: 1", FootBookPromises::handHoldsTheBest);
+        sentence("18 hold: of no WISHES", FootBookPromises::handHoldsNoWishes);
+        sentence("18 hold: STATE: there is none", FootBookPromises::noneToHold);
+    }
+
+    private static void handHoldsTheBest() {
+        FootBook x = readied(Check::small);
         x.wish(1, 4, 0, 0);
-        due("hold: not yet", x.held(1, 2), NONE);
-        due("hold()", x.hold(), 1);
-        due("hold: held(1, -1)", x.held(1, -1), 1);
-        due("hold: held(1, 2)", x.held(1, 2), 4);
-        due("hold: told(4)", x.told(4), 2);
+        due(x, NONE, "held", 1, 2);
+        due(x, 1, "hold");
+        due(x, 1, "held", 1, -1);
+        due(x, 4, "held", 1, 2);
+        due(x, 2, "told", 4);
+        due(x, 1, "stands");
+        x.use(1, 0, 1);
+        x.use(5, 0, 0);
+        due(x, 1, "held", 0, 0);
+        due(x, 1, "hold");
+        due(x, 0, "held", 0, 0);
+        due(x, 1, "held", 0, 1);
         x.drop();
-        due("hold() of fewer", x.hold(), 1);
-        due("hold: held(1, -1) of fewer", x.held(1, -1), NONE);
-        due("hold: held(1, 2) of fewer", x.held(1, 2), NONE);
-        refused("hold(), no giving", FootBookPromises::impossible, b -> b.hold(), STATE);
-        refused("hold(), no giving, nothing held", FootBookPromises::impossibleAndNothingHeld, b -> b.hold(), STATE);
+        due(x, 1, "hold");
+        due(x, NONE, "held", 1, -1);
+        due(x, NONE, "held", 1, 2);
+        due(x, 1, "told", 4);
+        due(x, 1, "hold");
+    }
+
+    private static void handHoldsNoWishes() {
+        FootBook x = new FootBook();
+        due(x, 1, "hold");
+        due(x, 1, "stands");
+        due(x, 0, "told", 4);
+        due(x, 0, "setting", -1);
+        due(x, 0, "change");
+        x.wish(0, 1, 0, 0);
+        due(x, 0, "stands");
+        due(x, STATE, "change");
+    }
+
+    private static void noneToHold() {
+        refused(Check::impossible, STATE, "hold");
+        refused(Check::impossibleAndNothingHeld, STATE, "hold");
+        FootBook x = readied(Check::impossibleAndNothingHeld);
+        due(x, STATE, "hold");
+        due(x, STATE, "change");
+        due(x, 0, "stands");
+        x.drop();
+        due(x, STATE, "change");
+        due(x, 1, "hold");
+    }
+
+    private static void promise19Change() {
+        sentence("19 change: THE HAND holds THE CHANGE: MOVES", FootBookPromises::handHoldsTheChange);
+        sentence("19 change: to fewer WISHES and to none", FootBookPromises::changeToFewer);
+        sentence("19 change: STATE: THE HAND holds nothing", FootBookPromises::nothingToChange);
+        sentence("19 change: STATE: or there is no GIVING", FootBookPromises::noChange);
     }
 
     /** UNIT 0 on FEET 0 and 1, UNIT 1 on 2 and 3, for ROLES 0 and 1; all of KIND 0; WISH 0 held on UNIT 1. */
@@ -761,124 +903,150 @@ public final class FootBookPromises {
         return x;
     }
 
-    private static void promise19Change() {
+    private static void handHoldsTheChange() {
         FootBook x = heldOnUnit1();
-        due("change: best() would move", x.best(), 1);
-        due("change(), nothing need move", x.change(), 0);
-        due("change: held(0, -1) stays", x.held(0, -1), 1);
-        due("change: given(0, -1)", x.given(0, -1), 0);
+        due(x, 1, "best");
+        due(x, 0, "change");
+        due(x, 1, "held", 0, -1);
+        due(x, 0, "given", 0, -1);
         x.fix(0, 0, 0);
-        due("change(), both roles move with the unit", x.change(), 2);
-        due("change: held(0, -1)", x.held(0, -1), 0);
-        due("change: held(0, 1)", x.held(0, 1), 1);
+        due(x, 2, "change");
+        due(x, 0, "held", 0, -1);
+        due(x, 0, "held", 0, 0);
+        due(x, 1, "held", 0, 1);
+        due(x, 1, "stands");
         x.use(5, 0, 1);
         x.use(7, 0, 1);
         x.fix(0, 1, 5);
-        due("change(), one role moves", x.change(), 1);
+        due(x, 1, "change");
+        due(x, 501, "setting", 1);
         x.fix(0, 1, -1);
         x.volt(5, 2);
         x.drop();
         x.wish(0, 3, 1, 0);
-        due("change(), a foot of another voltage; the cheapest of the rest", x.change(), 1);
-        due("change: held(0, 1), the first of the cheapest", x.held(0, 1), 1);
-        changeOfWishes();
-        changeOfRoles();
-        refused("change(), nothing held", FootBookPromises::nothing, b -> b.change(), STATE);
-        refused("change(), no giving", FootBookPromises::impossible, b -> b.change(), STATE);
-        refused("change(), neither", FootBookPromises::impossibleAndNothingHeld, b -> b.change(), STATE);
+        due(x, 1, "change");
+        due(x, 1, "held", 0, 1);
+        due(x, 0, "change");
     }
 
-    private static void changeOfWishes() {
+    private static void changeToFewer() {
         FootBook x = heldOnUnit1();
         x.wish(0, 1, 0, 2);
-        due("change(), a new wish does not move", x.change(), 0);
-        due("change: told(4)", x.told(4), 2);
-        due("change: held(1, 0), the new wish", x.held(1, 0), 0);
+        due(x, 0, "change");
+        due(x, 2, "told", 4);
+        due(x, 0, "held", 1, 0);
         x.drop();
-        due("change(), a wish that went does not move", x.change(), 0);
-        due("change: told(4) of fewer", x.told(4), 1);
-        due("change: held(1, 0) of fewer", x.held(1, 0), NONE);
+        due(x, 0, "change");
+        due(x, 1, "told", 4);
+        due(x, NONE, "held", 1, 0);
+        due(x, NONE, "held", 1, -1);
         x.drop();
-        due("change(), no wish at all", x.change(), 0);
-        due("change: told(4), no wish at all", x.told(4), 0);
-        due("change: held(0, -1), no wish at all", x.held(0, -1), NONE);
-        due("change: stands(), no wish at all", x.stands(), 1);
+        due(x, 0, "change");
+        due(x, 0, "told", 4);
+        due(x, NONE, "held", 0, -1);
+        due(x, 0, "setting", -1);
+        due(x, 1, "stands");
         x.wish(0, 3, 0, 0);
-        due("change(), as new as can be", x.change(), 0);
-        due("change: the best, as nothing was given", x.held(0, -1), 0);
+        due(x, 0, "change");
+        due(x, 0, "held", 0, -1);
     }
 
-    private static void changeOfRoles() {
-        FootBook x = new FootBook();
-        x.unit(0);
-        x.use(3, 0, 0);
-        x.use(4, 0, 1);
-        x.use(5, 0, 2);
-        x.wish(0, 1, 0, 0);
-        x.hold();
+    private static void nothingToChange() {
+        refused(Check::nothing, STATE, "change");
+        refused(x -> {
+            small(x);
+            x.feet(8);
+        }, STATE, "change");
+        refused(x -> {
+            x.unit(0);
+            x.use(0, 0, 0);
+            x.wish(0, 1, 0, 0);
+        }, STATE, "change");
+        refused(Check::impossibleAndNothingHeld, STATE, "change");
+    }
+
+    private static void noChange() {
+        refused(Check::impossible, STATE, "change");
+        FootBook x = readied(Check::impossible);
+        due(x, STATE, "change");
         x.drop();
-        x.wish(0, 7, 0, 0);
-        due("change(), two roles that the hand has not", x.change(), 2);
-        x.drop();
-        x.wish(0, 2, 0, 0);
-        due("change(), roles that are wished no more", x.change(), 0);
-        due("change: held(0, 0), wished no more", x.held(0, 0), NONE);
-        due("change: held(0, 1)", x.held(0, 1), 4);
-        FootBook y = new FootBook();
-        y.unit(0);
-        y.use(1, 0, 0);
-        y.wish(0, 1, 0, 0);
-        y.hold();
-        y.use(7, 0, 0);
-        y.use(2, 0, 0);
-        y.volt(1, 2);
-        y.drop();
-        y.wish(0, 1, 1, 0);
-        due("change(), fewest moves alike", y.change(), 1);
-        due("change: then the least cost", y.held(0, 0), 7);
-        FootBook z = new FootBook();
-        z.unit(0);
-        z.use(4, 0, 0);
-        z.wish(0, 1, 0, 0);
-        z.hold();
-        z.use(1, 0, 0);
-        z.use(7, 0, 0);
-        z.volt(4, 2);
-        z.drop();
-        z.wish(0, 1, 1, 0);
-        due("change(), moves and cost alike", z.change(), 1);
-        due("change: then the first", z.held(0, 0), 1);
+        due(x, 0, "change");
+        due(x, 1, "held", 0, 0);
     }
 
     private static void promise20Held() {
-        FootBook x = smallOne();
-        due("held(0, -1)", x.held(0, -1), 0);
-        due("held(0, 0)", x.held(0, 0), 1);
-        due("held(0, 1)", x.held(0, 1), 2);
-        due("held(0, 2), not given", x.held(0, 2), NONE);
-        due("held(0, 3), not given", x.held(0, 3), NONE);
-        for (int wish = 1; wish < 4; wish++) {
-            due("held(" + wish + ", -1), no such wish", x.held(wish, -1), NONE);
-            due("held(" + wish + ", 0), no such wish", x.held(wish, 0), NONE);
+        sentence("20 held: the UNIT of a WISH (0 to 3; role = -1), the FOOT of a ROLE", FootBookPromises::whatTheHandHas);
+        sentence("20 held: NONE", FootBookPromises::heldNone);
+        sentence("20 held: of WISHES that are there no more", FootBookPromises::heldThoughDropped);
+        sentence("20 held: UNKNOWN: not 0 to 3", FootBookPromises::notZeroToThree);
+        sentence("20 held: OUTSIDE: ROLE", FootBookPromises::heldOutside);
+    }
+
+    private static void whatTheHandHas() {
+        FootBook x = new FootBook();
+        x.feet(16);
+        for (int unit = 0; unit < 4; unit++) {
+            x.unit(3 - unit);
+            for (int role = 0; role < 4; role++) {
+                x.use(4 * unit + role, unit, role);
+            }
         }
-        x.wish(1, 1, 0, 0);
-        due("held(1, -1), wished but not held", x.held(1, -1), NONE);
-        x.drop();
-        x.drop();
-        due("held(0, -1), dropped but held", x.held(0, -1), 0);
-        due("held(0, 1), dropped but held", x.held(0, 1), 2);
-        for (int bad : new int[] {-1, 4, LOWEST, HIGHEST}) {
-            refused("held(" + bad + ", -1)", FootBookPromises::small, b -> b.held(bad, -1), UNKNOWN);
-            refused("held(" + bad + ", 4)", FootBookPromises::small, b -> b.held(bad, 4), UNKNOWN);
+        for (int wish = 0; wish < 4; wish++) {
+            x.wish(wish, 15, 0, 0);
         }
-        for (int bad : new int[] {-2, 4, LOWEST, HIGHEST}) {
-            refused("held(0, " + bad + ")", FootBookPromises::small, b -> b.held(0, bad), OUTSIDE);
-            refused("held(3, " + bad + "), nothing held", FootBookPromises::nothing, b -> b.held(3, bad), OUTSIDE);
+        x.hold();
+        for (int wish = 0; wish < 4; wish++) {
+            due(x, 3 - wish, "held", wish, -1);
+            for (int role = 0; role < 4; role++) {
+                due(x, 4 * (3 - wish) + role, "held", wish, role);
+            }
         }
     }
 
+    private static void heldNone() {
+        FootBook x = readied(Check::small);
+        due(x, NONE, "held", 0, 2);
+        due(x, NONE, "held", 0, 3);
+        for (int wish = 1; wish < 4; wish++) {
+            for (int role = -1; role < 4; role++) {
+                due(x, NONE, "held", wish, role);
+            }
+        }
+        x.wish(1, 1, 0, 0);
+        due(x, NONE, "held", 1, -1);
+        due(x, NONE, "held", 1, 0);
+    }
+
+    private static void heldThoughDropped() {
+        FootBook x = readied(Check::small);
+        x.drop();
+        due(x, 0, "held", 0, -1);
+        due(x, 1, "held", 0, 0);
+        due(x, 2, "held", 0, 1);
+        due(x, NONE, "held", 0, 2);
+    }
+
+    private static void notZeroToThree() {
+        bounds(Check::nothing, UNKNOWN, 0, 3, "held", 0, 0, -1);
+        bounds(Check::small, UNKNOWN, 0, 3, "held", 0, 0, 0);
+        bounds(Check::full, UNKNOWN, 0, 3, "held", 0, 0, 3);
+    }
+
+    private static void heldOutside() {
+        bounds(Check::nothing, OUTSIDE, -1, 3, "held", 1, 0, 0);
+        bounds(Check::small, OUTSIDE, -1, 3, "held", 1, 0, 0);
+        bounds(Check::full, OUTSIDE, -1, 3, "held", 1, 3, 0);
+    }
+
     private static void promise21Setting() {
-        FootBook x = new FootBook();
+        sentence("21 setting: SETTING i (from 0)", FootBookPromises::settingFromZero);
+        sentence("21 setting: i = -1: how many", FootBookPromises::howManySettings);
+        sentence("21 setting: NONE", FootBookPromises::noSuchSetting);
+        sentence("21 setting: every FOOT", FootBookPromises::sixteenSettings);
+    }
+
+    /** FEET 0, 9 and 15 have a ROLE. */
+    private static void threeSettings(FootBook x) {
         x.feet(16);
         for (int unit = 0; unit < 6; unit++) {
             x.unit(unit == 5 ? 1 : 0);
@@ -888,22 +1056,44 @@ public final class FootBookPromises {
         x.use(0, 4, 2);
         x.wish(1, 9, 0, 0);
         x.wish(0, 4, 0, 0);
-        due("setting(-1), nothing held", x.setting(-1), 0);
-        due("setting(0), nothing held", x.setting(0), NONE);
         x.hold();
-        due("setting(-1)", x.setting(-1), 3);
-        due("setting(0)", x.setting(0), 42);
-        due("setting(1)", x.setting(1), 950);
-        due("setting(2)", x.setting(2), 1553);
-        for (int i : new int[] {3, 4, 16, -2, -3, NONE, LOWEST, HIGHEST}) {
-            due("setting(" + i + ")", x.setting(i), NONE);
-        }
+    }
+
+    private static void settingFromZero() {
+        FootBook x = readied(FootBookPromises::threeSettings);
+        due(x, 42, "setting", 0);
+        due(x, 950, "setting", 1);
+        due(x, 1553, "setting", 2);
+        // Of THE HAND, though the WISHES go.
         x.drop();
         x.drop();
-        due("setting(-1) of the hand, though wishes went", x.setting(-1), 3);
+        due(x, 42, "setting", 0);
+        due(x, 1553, "setting", 2);
+    }
+
+    private static void howManySettings() {
+        due(new FootBook(), 0, "setting", -1);
+        due(readied(Check::small), 2, "setting", -1);
+        FootBook x = readied(FootBookPromises::threeSettings);
+        due(x, 3, "setting", -1);
+        x.drop();
+        due(x, 3, "setting", -1);
         x.change();
-        due("setting(-1), none given", x.setting(-1), 0);
-        sixteenSettings();
+        due(x, 2, "setting", -1);
+        x.drop();
+        x.change();
+        due(x, 0, "setting", -1);
+    }
+
+    private static void noSuchSetting() {
+        for (int bad : new int[] {-2, -3, NONE, LOWEST, LOWEST + 1, HIGHEST - 1, HIGHEST, 16, 17}) {
+            due(new FootBook(), NONE, "setting", bad);
+            due(readied(FootBookPromises::threeSettings), NONE, "setting", bad);
+        }
+        for (int i = 3; i < 16; i++) {
+            due(readied(FootBookPromises::threeSettings), NONE, "setting", i);
+        }
+        due(new FootBook(), NONE, "setting", 0);
     }
 
     private static void sixteenSettings() {
@@ -918,75 +1108,131 @@ public final class FootBookPromises {
         for (int wish = 0; wish < 4; wish++) {
             x.wish(wish, 15, 1, 0);
         }
-        due("best(), every foot", x.best(), 64);
         x.hold();
-        due("setting(-1), every foot", x.setting(-1), 16);
+        due(x, 16, "setting", -1);
         for (int foot = 0; foot < 16; foot++) {
-            due("setting(" + foot + ")", x.setting(foot), 100 * foot + 10 * (foot / 4) + foot % 4);
+            due(x, 100 * foot + 10 * (foot / 4) + foot % 4, "setting", foot);
         }
+        due(x, NONE, "setting", 16);
     }
 
     private static void promise22Stands() {
+        sentence("22 stands: what THE HAND holds", FootBookPromises::standsOfNothing);
+        sentence("22 stands: a GIVING (its FEET's VOLTAGES)", FootBookPromises::standsByVoltage);
+        sentence("22 stands: a GIVING (what is FIXED)", FootBookPromises::standsByFixed);
+        sentence("22 stands: a GIVING, not the best one", FootBookPromises::standsThoughNotBest);
+        sentence("22 stands: of WISHES as they are now: how many", FootBookPromises::standsByWishes);
+        sentence("22 stands: of WISHES as they are now: what is wished", FootBookPromises::standsByWhatIsWished);
+    }
+
+    private static void standsOfNothing() {
         FootBook x = new FootBook();
-        due("stands(), nothing held, nothing wished", x.stands(), 0);
-        x = smallOne();
-        due("stands()", x.stands(), 1);
+        due(x, 0, "stands");
+        x.wish(0, 1, 0, 0);
+        due(x, 0, "stands");
+        x = readied(Check::small);
+        due(x, 1, "stands");
+        x.feet(8);
+        due(x, 0, "stands");
+        x.hold();
+        due(x, 1, "stands");
+    }
+
+    private static void standsByVoltage() {
+        FootBook x = new FootBook();
+        x.unit(0);
+        x.use(0, 0, 0);
+        x.use(1, 0, 3);
+        x.wish(0, 9, 2, 0);
+        x.volt(0, 2);
         x.volt(1, 2);
-        due("stands(), whatever voltage", x.stands(), 1);
-        x.use(1, 0, 1);
-        due("stands(), though another is the best", x.stands(), 1);
+        x.hold();
+        due(x, 1, "stands");
+        x.volt(0, 3);
+        due(x, 0, "stands");
+        x.volt(0, 2);
+        due(x, 1, "stands");
+        x.volt(1, 1);
+        due(x, 0, "stands");
+        FootBook whatever = readied(Check::small);
+        whatever.volt(1, 2);
+        due(whatever, 1, "stands");
+    }
+
+    private static void standsByFixed() {
+        FootBook x = readied(Check::small);
         x.fix(0, 0, 1);
-        due("stands(), fixed where it is", x.stands(), 1);
+        due(x, 1, "stands");
         x.fix(0, 0, 0);
-        due("stands(), fixed elsewhere", x.stands(), 0);
+        due(x, 0, "stands");
         x.fix(0, 0, -1);
-        due("stands(), free again", x.stands(), 1);
+        due(x, 1, "stands");
+        x.fix(0, 1, 7);
+        due(x, 0, "stands");
+        due(readied(Check::full), 0, "stands");
+    }
+
+    private static void standsThoughNotBest() {
+        FootBook x = readied(Check::small);
+        x.drop();
+        x.wish(0, 3, 0, 7);
+        due(x, 0, "given", 0, 0);
+        due(x, 1, "held", 0, 0);
+        due(x, 1, "stands");
+    }
+
+    private static void standsByWishes() {
+        FootBook x = readied(Check::small);
         x.wish(1, 1, 0, 0);
-        due("stands(), a wish more", x.stands(), 0);
+        due(x, 0, "stands");
         x.drop();
-        due("stands(), a wish more went", x.stands(), 1);
+        due(x, 1, "stands");
         x.drop();
-        due("stands(), a wish less", x.stands(), 0);
-        standsAnew("the same", 0, 3, 0, 5, 1);
+        due(x, 0, "stands");
+        x.wish(0, 3, 0, 1);
+        due(x, 1, "stands");
+    }
+
+    private static void standsByWhatIsWished() {
+        standsAnew("the same", 0, 3, 0, 1, 1);
+        standsAnew("another place", 0, 3, 0, 5, 1);
         standsAnew("another kind", 1, 3, 0, 1, 0);
         standsAnew("a role more", 0, 7, 0, 1, 0);
         standsAnew("a role less", 0, 1, 0, 1, 0);
         standsAnew("another role", 0, 5, 0, 1, 0);
         standsAnew("another voltage", 0, 3, 1, 1, 0);
-        x = new FootBook();
-        x.unit(0);
-        x.use(0, 0, 0);
-        x.wish(0, 1, 2, 0);
-        x.volt(0, 2);
-        x.hold();
-        due("stands(), the told voltage", x.stands(), 1);
-        x.volt(0, 3);
-        due("stands(), the foot's voltage is another", x.stands(), 0);
     }
 
     /** The held WISH goes and another comes. */
     private static void standsAnew(String what, int kind, int roles, int volt, int place, int want) {
-        FootBook x = smallOne();
+        FootBook x = readied(Check::small);
         x.drop();
         x.wish(kind, roles, volt, place);
         due("stands(), " + what, x.stands(), want);
     }
 
     private static void promise23Told() {
-        FootBook x = smallOne();
+        sentence("23 told: 0 FEET, 1 UNITS, 2 USES, 3 WISHES, 4 WISHES that THE HAND gives", FootBookPromises::howManyOfEach);
+        sentence("23 told: OUTSIDE", () -> bounds(Check::small, OUTSIDE, 0, 4, "told", 0, 0));
+        sentence("23 told: OUTSIDE of a new book", () -> bounds(Check::nothing, OUTSIDE, 0, 4, "told", 0, 0));
+    }
+
+    private static void howManyOfEach() {
+        FootBook x = readied(Check::small);
         x.wish(1, 1, 0, 0);
         x.wish(1, 1, 0, 0);
         int[] want = {8, 2, 5, 3, 1};
         for (int what = 0; what < 5; what++) {
-            due("told(" + what + ")", x.told(what), want[what]);
+            due(x, want[what], "told", what);
         }
         x.drop();
         x.drop();
         x.drop();
-        due("told(3), all dropped", x.told(3), 0);
-        due("told(4), all dropped", x.told(4), 1);
-        for (int bad : new int[] {-1, 5, LOWEST, HIGHEST}) {
-            refused("told(" + bad + ")", FootBookPromises::small, b -> b.told(bad), OUTSIDE);
+        due(x, 0, "told", 3);
+        due(x, 1, "told", 4);
+        int[] all = {16, 6, 30, 4, 4};
+        for (int what = 0; what < 5; what++) {
+            due(readied(Check::full), all[what], "told", what);
         }
     }
 }
