@@ -206,7 +206,7 @@ abstract class Check {
         }
     }
 
-    /** 16 FEET of all VOLTAGES, 6 UNITS, 30 USES, 4 WISHES; what is held stands no more, since one is FIXED elsewhere. */
+    /** 16 FEET of all VOLTAGES, 6 UNITS, 30 USES, 4 WISHES; what is held stands no more: one is FIXED elsewhere. */
     static void full(FootBook x) {
         x.feet(16);
         for (int foot = 0; foot < 16; foot++) {
@@ -224,6 +224,19 @@ abstract class Check {
         x.hold();
         x.fix(1, 0, 5);
         x.fix(3, 1, 13);
+    }
+
+    /** 16 FEET, four UNITS of these KINDS; each can do its ROLES on four FEET in a row, from 4 times its number. */
+    static FootBook everyFoot(int... kinds) {
+        FootBook x = new FootBook();
+        x.feet(16);
+        for (int unit = 0; unit < 4; unit++) {
+            x.unit(kinds[unit]);
+            for (int role = 0; role < 4; role++) {
+                x.use(4 * unit + role, unit, role);
+            }
+        }
+        return x;
     }
 
     /** So many UNITS of KIND 0, each of which can do ROLE 0 on one FOOT, its own number. */

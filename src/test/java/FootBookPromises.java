@@ -400,6 +400,7 @@ public final class FootBookPromises extends Check {
         sentence("10 fix: UNKNOWN (FOOT), of 16", () -> bounds(Check::full, UNKNOWN, -1, 15, "fix", 2, 3, 1, 0));
         sentence("10 fix: OUTSIDE: the ROLE is not wished", () -> roleIsNotWished("fix", 0));
         sentence("10 fix: OUTSIDE: the ROLE is not wished, -1", () -> roleIsNotWished("fix", -1));
+        sentence("10 fix: OUTSIDE: what is FIXED stays", FootBookPromises::refusedFixOfAFixedWish);
     }
 
     private static void onWhichItWas() {
@@ -444,6 +445,14 @@ public final class FootBookPromises extends Check {
         x.wish(0, 3, 0, 1);
         due(x, NONE, "wished", 0, 11);
         due(x, 1, "best");
+    }
+
+    /** ROLE 0 of WISH 1 and ROLE 1 of WISH 3 are FIXED. */
+    private static void refusedFixOfAFixedWish() {
+        for (int wish = 1; wish <= 3; wish += 2) {
+            bounds(Check::full, OUTSIDE, 0, 1, "fix", 1, wish, 0, -1);
+            bounds(Check::full, OUTSIDE, 0, 1, "fix", 1, wish, 0, 15);
+        }
     }
 
     /** Of every set of ROLES: all that are not in it, and all that are none. */
@@ -522,6 +531,7 @@ public final class FootBookPromises extends Check {
 
     private static void promise12Best() {
         sentence("12 best: COST of THE BEST GIVING", FootBookPromises::costOfTheBest);
+        sentence("12 best: whatever THE HAND holds", FootBookPromises::bestWhateverIsHeld);
         sentence("12 best: NONE: there is none", FootBookPromises::noneIsBest);
     }
 
@@ -543,6 +553,21 @@ public final class FootBookPromises extends Check {
         x.wish(0, 15, 0, 10);
         due(x, 6 + 7 + 8 + 7, "best");
         due(readied(Check::nothing), 0, "best");
+    }
+
+    private static void bestWhateverIsHeld() {
+        FootBook x = heldOnUnit1();
+        due(x, 0, "change");
+        x.wish(0, 1, 0, 0);
+        due(x, 0 + 1 + 2, "best");
+        due(x, 0, "given", 0, -1);
+        due(x, 2, "many");
+        due(x, 0, "blame");
+        x.drop();
+        due(x, 0, "change");
+        due(x, 0 + 1 + 2, "trial", 0, 1, 0, 0);
+        due(x, 1, "best");
+        due(x, 1, "held", 0, -1);
     }
 
     private static void noneIsBest() {
@@ -975,7 +1000,8 @@ public final class FootBookPromises extends Check {
     }
 
     private static void promise20Held() {
-        sentence("20 held: the UNIT of a WISH (0 to 3; role = -1), the FOOT of a ROLE", FootBookPromises::whatTheHandHas);
+        sentence("20 held: the UNIT of a WISH (0 to 3; role = -1), the FOOT of a ROLE",
+                FootBookPromises::whatTheHandHas);
         sentence("20 held: NONE", FootBookPromises::heldNone);
         sentence("20 held: of WISHES that are there no more", FootBookPromises::heldThoughDropped);
         sentence("20 held: UNKNOWN: not 0 to 3", FootBookPromises::notZeroToThree);
@@ -983,14 +1009,7 @@ public final class FootBookPromises extends Check {
     }
 
     private static void whatTheHandHas() {
-        FootBook x = new FootBook();
-        x.feet(16);
-        for (int unit = 0; unit < 4; unit++) {
-            x.unit(3 - unit);
-            for (int role = 0; role < 4; role++) {
-                x.use(4 * unit + role, unit, role);
-            }
-        }
+        FootBook x = everyFoot(3, 2, 1, 0);
         for (int wish = 0; wish < 4; wish++) {
             x.wish(wish, 15, 0, 0);
         }
@@ -1097,14 +1116,7 @@ public final class FootBookPromises extends Check {
     }
 
     private static void sixteenSettings() {
-        FootBook x = new FootBook();
-        x.feet(16);
-        for (int unit = 0; unit < 4; unit++) {
-            x.unit(3 - unit);
-            for (int role = 0; role < 4; role++) {
-                x.use(unit * 4 + role, unit, role);
-            }
-        }
+        FootBook x = everyFoot(3, 2, 1, 0);
         for (int wish = 0; wish < 4; wish++) {
             x.wish(wish, 15, 1, 0);
         }
@@ -1122,6 +1134,7 @@ public final class FootBookPromises extends Check {
         sentence("22 stands: a GIVING (what is FIXED)", FootBookPromises::standsByFixed);
         sentence("22 stands: a GIVING, not the best one", FootBookPromises::standsThoughNotBest);
         sentence("22 stands: of WISHES as they are now: how many", FootBookPromises::standsByWishes);
+        sentence("22 stands: of WISHES as they are now: each of them", FootBookPromises::standsByEachWish);
         sentence("22 stands: of WISHES as they are now: what is wished", FootBookPromises::standsByWhatIsWished);
     }
 
@@ -1193,6 +1206,26 @@ public final class FootBookPromises extends Check {
         due(x, 1, "stands");
     }
 
+    /** Every FOOT has a ROLE; one FOOT of another VOLTAGE, or one ROLE FIXED elsewhere, and it stands no more. */
+    private static void standsByEachWish() {
+        FootBook x = everyFoot(0, 1, 2, 3);
+        for (int wish = 0; wish < 4; wish++) {
+            x.wish(wish, 15, 1, 0);
+            x.hold();
+            due(x, 1, "stands");
+        }
+        for (int slot = 0; slot < 16; slot++) {
+            x.volt(slot, 2);
+            due(x, 0, "stands");
+            x.volt(slot, 1);
+            due(x, 1, "stands");
+            x.fix(slot / 4, slot % 4, (slot + 1) % 16);
+            due(x, 0, "stands");
+            x.fix(slot / 4, slot % 4, slot);
+            due(x, 1, "stands");
+        }
+    }
+
     private static void standsByWhatIsWished() {
         standsAnew("the same", 0, 3, 0, 1, 1);
         standsAnew("another place", 0, 3, 0, 5, 1);
@@ -1212,7 +1245,8 @@ public final class FootBookPromises extends Check {
     }
 
     private static void promise23Told() {
-        sentence("23 told: 0 FEET, 1 UNITS, 2 USES, 3 WISHES, 4 WISHES that THE HAND gives", FootBookPromises::howManyOfEach);
+        sentence("23 told: 0 FEET, 1 UNITS, 2 USES, 3 WISHES, 4 WISHES that THE HAND gives",
+                FootBookPromises::howManyOfEach);
         sentence("23 told: OUTSIDE", () -> bounds(Check::small, OUTSIDE, 0, 4, "told", 0, 0));
         sentence("23 told: OUTSIDE of a new book", () -> bounds(Check::nothing, OUTSIDE, 0, 4, "told", 0, 0));
     }

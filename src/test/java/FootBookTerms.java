@@ -1,6 +1,6 @@
 import java.util.function.Consumer;
 
-/** The sentences under 'Terms' of the document: each that names an edge has a test of its own, which bears its words. */
+/** The sentences under 'Terms' of the document: each that names an edge has a test of its own with its words. */
 public final class FootBookTerms extends Check {
     public static void main(String[] args) {
         refusals();
@@ -522,12 +522,14 @@ public final class FootBookTerms extends Check {
             due(x, foot < 4 ? foot / 2 : NONE, "given", 0, -1);
             due(x, foot < 4 ? 1 : 0, "many");
         }
-        x.fix(0, 0, 3);
+        // Not on a FOOT of another VOLTAGE.
         x.volt(3, 2);
-        due(x, 3, "best");
-        x.wish(0, 1, 1, 0);
-        x.fix(1, 0, 3);
-        due(x, NONE, "best");
+        for (int volt = 0; volt <= 4; volt++) {
+            x.drop();
+            x.wish(0, 1, volt, 0);
+            x.fix(0, 0, 3);
+            due(x, volt == 0 || volt == 2 ? 3 : NONE, "best");
+        }
     }
 
     private static void noFootTwice() {
@@ -583,14 +585,7 @@ public final class FootBookTerms extends Check {
     }
 
     private static void costOfEachFoot() {
-        FootBook x = new FootBook();
-        x.feet(16);
-        for (int unit = 0; unit < 4; unit++) {
-            x.unit(unit);
-            for (int role = 0; role < 4; role++) {
-                x.use(4 * unit + role, unit, role);
-            }
-        }
+        FootBook x = everyFoot(0, 1, 2, 3);
         int[] costs = {0 + 1 + 2 + 3, 4 + 5 + 6 + 7, 8 + 7 + 6 + 5, 4 + 3 + 2 + 1};
         int cost = 0;
         for (int wish = 0; wish < 4; wish++) {
@@ -1131,14 +1126,7 @@ public final class FootBookTerms extends Check {
     }
 
     private static void sixteenMoves() {
-        FootBook x = new FootBook();
-        x.feet(16);
-        for (int unit = 0; unit < 4; unit++) {
-            x.unit(0);
-            for (int role = 0; role < 4; role++) {
-                x.use(4 * unit + role, unit, role);
-            }
-        }
+        FootBook x = everyFoot(0, 0, 0, 0);
         for (int wish = 0; wish < 4; wish++) {
             x.wish(0, 15, 0, 4 * wish);
         }
@@ -1197,49 +1185,36 @@ public final class FootBookTerms extends Check {
     }
 
     private static void thenTheLeastCost() {
-        FootBook x = new FootBook();
-        x.unit(0);
-        x.use(4, 0, 0);
-        x.wish(0, 1, 0, 0);
-        x.hold();
-        x.use(2, 0, 0);
-        x.use(7, 0, 0);
-        x.use(3, 0, 0);
-        x.volt(4, 2);
-        x.drop();
-        x.wish(0, 1, 1, 0);
+        FootBook x = offFoot4(new int[][] {{2, 0}, {7, 0}, {3, 0}});
         due(x, 1, "change");
         due(x, 7, "held", 0, 0);
     }
 
     private static void thenTheFirst() {
+        FootBook x = offFoot4(new int[][] {{1, 1}, {7, 0}});
+        due(x, 1, "change");
+        due(x, 0, "held", 0, -1);
+        due(x, 7, "held", 0, 0);
+        x = offFoot4(new int[][] {{7, 0}, {1, 0}});
+        due(x, 1, "change");
+        due(x, 1, "held", 0, 0);
+    }
+
+    /** A WISH at PLACE 0 is held on UNIT 0 and FOOT 4 and can't stay there; it may go to these FEET and UNITS. */
+    private static FootBook offFoot4(int[][] feetAndUnits) {
         FootBook x = new FootBook();
         x.unit(0);
         x.unit(0);
         x.use(4, 0, 0);
         x.wish(0, 1, 0, 0);
         x.hold();
-        x.use(1, 1, 0);
-        x.use(7, 0, 0);
-        x.fix(0, 0, -1);
+        for (int[] use : feetAndUnits) {
+            x.use(use[0], use[1], 0);
+        }
         x.volt(4, 2);
         x.drop();
         x.wish(0, 1, 1, 0);
-        due(x, 1, "change");
-        due(x, 0, "held", 0, -1);
-        due(x, 7, "held", 0, 0);
-        FootBook y = new FootBook();
-        y.unit(0);
-        y.use(4, 0, 0);
-        y.wish(0, 1, 0, 0);
-        y.hold();
-        y.use(7, 0, 0);
-        y.use(1, 0, 0);
-        y.volt(4, 2);
-        y.drop();
-        y.wish(0, 1, 1, 0);
-        due(y, 1, "change");
-        due(y, 1, "held", 0, 0);
+        return x;
     }
 
     // ---- 3 the settings
