@@ -18,6 +18,7 @@ public final class FootBookTerms extends Check {
     // ---- refusals
 
     private static void refusals() {
+        sentence("UNKNOWN -1, OUTSIDE -2, STATE -3, FULL -4, NO -5; NONE = -6", FootBookTerms::theConstants);
         sentence("an object is used for at most 512 calls", FootBookTerms::call512);
         sentence("the first of these that fits: UNKNOWN ahead of OUTSIDE", FootBookTerms::unknownAheadOfOutside);
         sentence("the first of these that fits: UNKNOWN ahead of FULL", FootBookTerms::unknownAheadOfFull);
@@ -26,6 +27,15 @@ public final class FootBookTerms extends Check {
         sentence("refusals ahead of NONE", FootBookTerms::refusalsAheadOfNone);
         sentence("they change nothing", FootBookTerms::refusedCallsInARow);
         sentence("they change nothing (the numbers to come)", FootBookTerms::numbersAfterRefusedCalls);
+    }
+
+    private static void theConstants() {
+        due("UNKNOWN", FootBook.UNKNOWN, -1);
+        due("OUTSIDE", FootBook.OUTSIDE, -2);
+        due("STATE", FootBook.STATE, -3);
+        due("FULL", FootBook.FULL, -4);
+        due("NO", FootBook.NO, -5);
+        due("NONE", FootBook.NONE, -6);
     }
 
     private static void call512() {
