@@ -354,8 +354,8 @@ public final class FootBook {
         }
         int low = Math.min(a, b);
         int high = Math.max(a, b);
-        boolean within = low < c && c < high;
-        return within != (low < d && d < high);
+        int between = (low < c && c < high ? 1 : 0) + (low < d && d < high ? 1 : 0);
+        return between == 1;
     }
 
     /** THE HAND's UNITS and FEET are unlike since it took them from a GIVING; only the rest may have changed. */
@@ -612,7 +612,9 @@ public final class FootBook {
                 roles[wish] = looked ? board.roles[wish] : 0;
                 if (looked) {
                     aimAt(chip, board, wish);
-                    enoughUnits &= board.countOfKind(board.kinds[wish], set) <= chip.countOfKind(board.kinds[wish]);
+                    if (board.countOfKind(board.kinds[wish], set) > chip.countOfKind(board.kinds[wish])) {
+                        enoughUnits = false;
+                    }
                 }
             }
         }
